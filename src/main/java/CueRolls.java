@@ -1,0 +1,2062 @@
+import java.util.NoSuchElementException;
+
+/** Actors' rolls and their cues, orders of speeches, a play, plots and their cast, writers' habits. */
+public final class CueRolls {
+    /** None; refused. */
+    public static final int NONE = -1;
+    /** Not told. */
+    public static final int HIDDEN = -2;
+
+    private static final int SORT_ROLL = 0;
+    private static final int SORT_PLOT = 1;
+    private static final int SORT_HABIT = 2;
+
+    private final Tape tape;
+    private final RollReader rollReader;
+    private final PlotReader plotReader;
+    private final Habits habits;
+    private final Rolls rolls;
+    private final Cues cues;
+    private final Orders orders;
+    private final Stage stage;
+    private final Plots plots;
+    private int keptRolls;
+    private int keptPlay;
+
+    public CueRolls() {
+        tape = new Tape();
+        rollReader = new RollReader();
+        plotReader = new PlotReader();
+        habits = new Habits();
+        rolls = new Rolls();
+        cues = new Cues(rolls);
+        orders = new Orders(rolls, cues);
+        stage = new Stage(rolls, cues);
+        plots = new Plots();
+        keptRolls = 0;
+        keptPlay = 0;
+    }
+
+    // ---- the tape and the texts on it
+
+    public int feed(int a, int b, int c, int d, int e) {
+        int more = Tape.told(a) + Tape.told(b) + Tape.told(c) + Tape.told(d) + Tape.told(e);
+        if (tape.size() + more > Tape.MOST) {
+            return NONE;
+        }
+        tape.put(a);
+        tape.put(b);
+        tape.put(c);
+        tape.put(d);
+        tape.put(e);
+        return tape.size();
+    }
+
+    public boolean end(int n) {
+        return tape.cut(n);
+    }
+
+    public int fault(int sort) {
+        Reader reader = readerOf(sort);
+        return reader == null ? HIDDEN : reader.faultOf(tape);
+    }
+
+    public int text(int sort) {
+        Reader reader = readerOf(sort);
+        if (reader == null || reader.faultOf(tape) != NONE) {
+            return NONE;
+        }
+        int number = stored(sort);
+        if (number != NONE) {
+            tape.cut(0);
+        }
+        return number;
+    }
+
+    private Reader readerOf(int sort) {
+        switch (sort) {
+            case SORT_ROLL:
+                return rollReader;
+            case SORT_PLOT:
+                return plotReader;
+            case SORT_HABIT:
+                return habits;
+            default:
+                return null;
+        }
+    }
+
+    /** The number of what was read without fault; NONE: there are so many. */
+    private int stored(int sort) {
+        switch (sort) {
+            case SORT_ROLL:
+                return rolls.add(rollReader);
+            case SORT_PLOT:
+                return plots.add(plotReader);
+            default:
+                return habits.add(tape);
+        }
+    }
+
+    // ---- speeches and their cues
+
+    public int speech(int speech, int what) throws NoSuchElementException {
+        if (!rolls.has(speech) || what < 0 || what > 2) {
+            throw new NoSuchElementException("no such speech, or nothing of it that has this number");
+        }
+        if (what == 0) {
+            return rolls.wordsOf(speech);
+        }
+        return what == 1 ? rolls.cueWordsOf(speech) : Words.letters(rolls.lastWord(speech));
+    }
+
+    public int many(int roll) {
+        return rolls.hasRoll(roll) ? rolls.sizeOf(roll) : NONE;
+    }
+
+    public int ends(int one, int other) {
+        if (!rolls.has(one) || !rolls.has(other)) {
+            return NONE;
+        }
+        return cues.closes(one, other) ? 1 : 0;
+    }
+
+    public int far(int one, int other) {
+        if (!rolls.hasCue(one) || !rolls.has(other)) {
+            return NONE;
+        }
+        return cues.distance(one, other);
+    }
+
+    public boolean limit(int v) {
+        return cues.setLimit(v);
+    }
+
+    public int kind(int speech, int rolls) {
+        if (!this.rolls.has(speech) || !this.rolls.haveAll(rolls) || !Rolls.isOf(speech, rolls)) {
+            return NONE;
+        }
+        return cues.kindOf(speech, rolls);
+    }
+
+    public int kinds(int rolls, int kind) {
+        if (!this.rolls.haveAll(rolls) || kind < Cues.NOTHING || kind > Cues.LOST) {
+            return NONE;
+        }
+        return cues.howManyOfKind(rolls, kind);
+    }
+
+    public int nearest(int speech, int rolls) {
+        if (!this.rolls.hasCue(speech) || !this.rolls.haveAll(rolls) || !Rolls.isOf(speech, rolls)) {
+            return NONE;
+        }
+        return cues.leastFar(speech, rolls);
+    }
+
+    // ---- orders of all speeches
+
+    public int least(int rolls) {
+        return orders.areTold(rolls) ? orders.fewestGaps() : NONE;
+    }
+
+    public long orders(int rolls) {
+        return orders.areTold(rolls) ? orders.howManyBest() : NONE;
+    }
+
+    public int first(int rolls, int place) {
+        return orders.areTold(rolls) ? orders.firstAt(place) : NONE;
+    }
+
+    public int sure(int rolls, int one, int other) {
+        if (one == other || !this.rolls.has(one) || !this.rolls.has(other)) {
+            return HIDDEN;
+        }
+        if (!Rolls.isOf(one, rolls) || !Rolls.isOf(other, rolls) || !orders.areTold(rolls)) {
+            return HIDDEN;
+        }
+        return orders.certain(one, other);
+    }
+
+    // ---- what rolls tell of one another
+
+    public int length(int rolls) {
+        return this.rolls.haveAll(rolls) ? cues.wordsAtLeast(rolls) : NONE;
+    }
+
+    public int one(int roll) {
+        return rolls.hasRoll(roll) ? cues.joined(roll) : NONE;
+    }
+
+    public int settles(int roll, int rolls) {
+        if (!this.rolls.hasRoll(roll) || !this.rolls.haveAll(rolls) || Rolls.isIn(roll, rolls)) {
+            return NONE;
+        }
+        return cues.settledBy(roll, rolls);
+    }
+
+    public int next(int rolls) {
+        return this.rolls.haveAll(rolls) ? cues.settlesMost(rolls) : NONE;
+    }
+
+    // ---- the play, told and rehearsed
+
+    public int act(int roll) {
+        return rolls.hasRoll(roll) ? stage.goOn(roll) : NONE;
+    }
+
+    public int play(int place) {
+        return place == NONE ? stage.played() : stage.playedAt(place);
+    }
+
+    public int wrong(int i) {
+        return stage.gapOfPlay(i);
+    }
+
+    public int rehearse(int rolls, int place) {
+        if (!this.rolls.haveAll(rolls)) {
+            return NONE;
+        }
+        stage.rehearseAll(rolls);
+        return place == NONE ? stage.said() : stage.saidAt(place);
+    }
+
+    public int soon(int rolls) {
+        if (!this.rolls.haveAll(rolls)) {
+            return NONE;
+        }
+        stage.rehearseAll(rolls);
+        return stage.saidOtherwise();
+    }
+
+    public int inside(int one, int other) {
+        if (!rolls.has(one) || !rolls.has(other) || Rolls.rollOf(one) == Rolls.rollOf(other)) {
+            return NONE;
+        }
+        return cues.within(one, other);
+    }
+
+    public int tempted(int rolls) {
+        return this.rolls.haveAll(rolls) ? cues.temptations(rolls) : NONE;
+    }
+
+    // ---- plots
+
+    public boolean boys(int parts) {
+        return plots.setBoys(parts);
+    }
+
+    public int plot(int plot, int scene) {
+        if (!plots.has(plot)) {
+            return NONE;
+        }
+        return scene == NONE ? plots.partsOf(plot) : plots.partsIn(plot, scene);
+    }
+
+    public int bars(int plot, int one, int other, int change) {
+        if (!plots.has(plot) || !Plots.isChange(change) || one == other) {
+            return NONE;
+        }
+        if (!plots.hasPart(plot, one) || !plots.hasPart(plot, other)) {
+            return NONE;
+        }
+        return plots.bar(plot, one, other, change) ? 1 : 0;
+    }
+
+    public int cast(int plot, int part, int change) {
+        if (!plots.has(plot) || !Plots.isChange(change) || part != NONE && !plots.hasPart(plot, part)) {
+            return NONE;
+        }
+        int need = plots.dressAll(plot, change);
+        return part == NONE ? need : plots.coatOf(part);
+    }
+
+    public int crowd(int plot, int what) {
+        if (!plots.has(plot) || what < 0 || what > 1) {
+            return NONE;
+        }
+        int scene = plots.fullest(plot);
+        return what == 0 ? scene : Integer.bitCount(plots.partsIn(plot, scene));
+    }
+
+    public int could(int plot, int change, int men, int boys) {
+        if (!plots.has(plot) || !Plots.isChange(change) || !Plots.isCrew(men) || !Plots.isCrew(boys)) {
+            return NONE;
+        }
+        return plots.suffice(plot, change, men, boys) ? 1 : 0;
+    }
+
+    // ---- habits
+
+    public boolean habit(int roll, int habit) {
+        if (!rolls.hasRoll(roll) || habit != NONE && !habits.has(habit)) {
+            return false;
+        }
+        rolls.setHabit(roll, habit);
+        return true;
+    }
+
+    public int worth(int roll, int habit) {
+        if (!rolls.hasRoll(roll) || !habits.has(habit)) {
+            return NONE;
+        }
+        int sum = 0;
+        for (int place = 0; place < rolls.sizeOf(roll); place++) {
+            int speech = Rolls.PLACES * roll + place;
+            sum += habits.worthOf(habit, rolls.lastWord(speech), rolls.lastButOne(speech));
+        }
+        return sum;
+    }
+
+    public int likely(int speech, int roll) {
+        if (!rolls.hasCue(speech) || !rolls.hasRoll(roll) || Rolls.rollOf(speech) == roll) {
+            return NONE;
+        }
+        int habit = rolls.habitOf(roll);
+        if (habit == NONE) {
+            return NONE;
+        }
+        return habits.worthOf(habit, rolls.lastCueWord(speech), rolls.lastCueWordButOne(speech));
+    }
+
+    // ---- what is kept, and counts
+
+    public int keep() {
+        keptRolls = rolls.number();
+        keptPlay = stage.played();
+        return keptRolls + keptPlay;
+    }
+
+    public int back() {
+        rolls.cutTo(keptRolls);
+        stage.cutTo(keptPlay);
+        return rolls.number() + stage.played();
+    }
+
+    public int count(int what) {
+        switch (what) {
+            case 0:
+                return rolls.number();
+            case 1:
+                return plots.number();
+            case 2:
+                return habits.number();
+            case 3:
+                return rolls.speeches();
+            case 4:
+                return tape.size();
+            case 5:
+                return cues.limitNow();
+            case 6:
+                return plots.boysNow();
+            default:
+                return NONE;
+        }
+    }
+
+    // ---- classes inside
+
+    /** The bytes told so far. */
+    private static final class Tape {
+        static final int MOST = 200;
+        private final byte[] bytes;
+        private int size;
+
+        Tape() {
+            bytes = new byte[MOST];
+            size = 0;
+        }
+
+        int size() {
+            return size;
+        }
+
+        /** The byte at a place, 0 .. 255; NONE: beyond the last one. */
+        int at(int place) {
+            return place >= 0 && place < size && place < bytes.length ? bytes[place] & 255 : NONE;
+        }
+
+        /** How many bytes of a number are told, as those of 0 are left out. */
+        static int told(int number) {
+            int told = 0;
+            for (int shift = 24; shift >= 0; shift -= 8) {
+                if ((number >>> shift & 255) != 0) {
+                    told++;
+                }
+            }
+            return told;
+        }
+
+        void put(int number) {
+            for (int shift = 24; shift >= 0; shift -= 8) {
+                int next = number >>> shift & 255;
+                if (next != 0 && size >= 0 && size < bytes.length) {
+                    bytes[size] = (byte) next;
+                    size++;
+                }
+            }
+        }
+
+        boolean cut(int n) {
+            if (n < 0 || n > size) {
+                return false;
+            }
+            size = n;
+            return true;
+        }
+
+        /** Lays the bytes into a row of its own and answers how many they are. */
+        int copyTo(byte[] row) {
+            int copied = 0;
+            for (int i = 0; row != null && i < size && i < row.length && i < bytes.length; i++) {
+                row[i] = bytes[i];
+                copied++;
+            }
+            return copied;
+        }
+    }
+
+    /** Words as numbers: five bits a letter (1 for a .. 26), the first letter highest; 0 is no word. */
+    private static final class Words {
+        static final int MOST_LETTERS = 8;
+        private static final int BITS = 5;
+
+        private Words() {
+        }
+
+        static long with(long word, int letter) {
+            return word << BITS | letter - 'a' + 1;
+        }
+
+        /** The letter that has so many behind it. */
+        static int letter(long word, int behind) {
+            return (int) (word >>> BITS * behind) & 31;
+        }
+
+        static int letters(long word) {
+            int letters = 0;
+            for (int i = 0; i < MOST_LETTERS && letter(word, i) != 0; i++) {
+                letters++;
+            }
+            return letters;
+        }
+
+        static int vowels(long word) {
+            int vowels = 0;
+            for (int i = 0; i < MOST_LETTERS; i++) {
+                switch (letter(word, i) + 'a' - 1) {
+                    case 'a':
+                    case 'e':
+                    case 'i':
+                    case 'o':
+                    case 'u':
+                        vowels++;
+                        break;
+                    default:
+                        break;
+                }
+            }
+            return vowels;
+        }
+
+        static int firstLetter(long word) {
+            int letters = letters(word);
+            return letters == 0 ? 0 : letter(word, letters - 1);
+        }
+    }
+
+    /** Reads a text; once a byte is wrong it stays there, and nothing fits any more. */
+    private abstract static class Reader {
+        private static final int END = -1;
+        private static final int SPOILT = -2;
+        private final byte[] bytes;
+        private int size;
+        private int at;
+        private int fault;
+
+        Reader() {
+            bytes = new byte[Tape.MOST];
+            size = 0;
+            at = 0;
+            fault = NONE;
+        }
+
+        /** Takes all that the sort of text may have, up to its end or the first wrong byte. */
+        abstract void takeAll();
+
+        final int faultOf(Tape tape) {
+            size = tape == null ? 0 : tape.copyTo(bytes);
+            return faultOfBytes();
+        }
+
+        /** Reads a row that was laid before. */
+        final void readAgain(byte[] row, int length) {
+            size = 0;
+            for (int i = 0; row != null && i < length && i < row.length && i < bytes.length; i++) {
+                bytes[i] = row[i];
+                size++;
+            }
+            faultOfBytes();
+        }
+
+        private int faultOfBytes() {
+            at = 0;
+            fault = NONE;
+            takeAll();
+            if (sign() != END) {
+                spoil();
+            }
+            return fault;
+        }
+
+        final int here() {
+            if (fault != NONE) {
+                return SPOILT;
+            }
+            return at >= 0 && at < size && at < bytes.length ? bytes[at] & 255 : END;
+        }
+
+        /** The byte that stands here behind blanks. */
+        final int sign() {
+            for (int i = 0; i < Tape.MOST && here() == ' '; i++) {
+                at++;
+            }
+            return here();
+        }
+
+        final void step() {
+            at++;
+        }
+
+        final boolean takes(int sign) {
+            if (sign() != sign) {
+                return false;
+            }
+            at++;
+            return true;
+        }
+
+        final void needs(int sign) {
+            if (!takes(sign)) {
+                spoil();
+            }
+        }
+
+        final void spoil() {
+            if (fault == NONE) {
+                fault = at;
+            }
+        }
+    }
+
+    /** Reads a text as a roll, item by item. */
+    private static final class RollReader extends Reader {
+        private final int[] cueWords;
+        private final long[] cues;
+        private final int[] wordCounts;
+        private final long[] words;
+        private int items;
+
+        RollReader() {
+            cueWords = new int[Rolls.MOST_ITEMS];
+            cues = new long[Rolls.MOST_ITEMS * Rolls.MOST_CUE];
+            wordCounts = new int[Rolls.MOST_ITEMS];
+            words = new long[Rolls.MOST_ITEMS * Rolls.MOST_WORDS];
+            items = 0;
+        }
+
+        void takeAll() {
+            items = 0;
+            boolean more = true;
+            for (int i = 0; i < Rolls.MOST_ITEMS && more; i++) {
+                takeCue(i);
+                needs('>');
+                takeSpeech(i);
+                items++;
+                more = i + 1 < Rolls.MOST_ITEMS && takes(';');
+            }
+        }
+
+        private void takeCue(int item) {
+            int taken = 0;
+            if (!takes('-')) {
+                for (int i = 0; i < Rolls.MOST_CUE && (i == 0 || isLetter(sign())); i++) {
+                    cues[Rolls.MOST_CUE * item + i] = word();
+                    taken++;
+                }
+            }
+            cueWords[item] = taken;
+        }
+
+        private void takeSpeech(int item) {
+            int taken = 0;
+            for (int i = 0; i < Rolls.MOST_WORDS && (i == 0 || isLetter(sign())); i++) {
+                words[Rolls.MOST_WORDS * item + i] = word();
+                taken++;
+            }
+            wordCounts[item] = taken;
+        }
+
+        /** The word that has to stand here; a ninth letter of it is wrong. */
+        private long word() {
+            long word = 0;
+            int letter = sign();
+            for (int i = 0; i < Words.MOST_LETTERS && isLetter(letter); i++) {
+                word = Words.with(word, letter);
+                step();
+                letter = here();
+            }
+            if (word == 0 || isLetter(letter)) {
+                spoil();
+            }
+            return word;
+        }
+
+        private static boolean isLetter(int sign) {
+            return sign >= 'a' && sign <= 'z';
+        }
+
+        int items() {
+            return items;
+        }
+
+        int cueWordsOf(int item) {
+            return item >= 0 && item < cueWords.length ? cueWords[item] : 0;
+        }
+
+        long cueWord(int item, int i) {
+            int at = Rolls.MOST_CUE * item + i;
+            return at >= 0 && at < cues.length ? cues[at] : 0;
+        }
+
+        int wordsOf(int item) {
+            return item >= 0 && item < wordCounts.length ? wordCounts[item] : 0;
+        }
+
+        long word(int item, int i) {
+            int at = Rolls.MOST_WORDS * item + i;
+            return at >= 0 && at < words.length ? words[at] : 0;
+        }
+    }
+
+    /** Reads a text as a plot, scene by scene. */
+    private static final class PlotReader extends Reader {
+        private final int[] parts;
+        private int scenes;
+
+        PlotReader() {
+            parts = new int[Plots.MOST_SCENES];
+            scenes = 0;
+        }
+
+        void takeAll() {
+            scenes = 0;
+            boolean more = true;
+            for (int i = 0; i < Plots.MOST_SCENES && more; i++) {
+                parts[i] = takeScene();
+                scenes++;
+                more = i + 1 < Plots.MOST_SCENES && takes('/');
+            }
+        }
+
+        private int takeScene() {
+            int taken = 0;
+            boolean more = true;
+            for (int i = 0; i < Plots.PARTS && more; i++) {
+                int part = sign() - 'a';
+                more = part >= 0 && part < Plots.PARTS && (taken >> part & 1) == 0;
+                if (more) {
+                    taken |= 1 << part;
+                    step();
+                }
+            }
+            if (taken == 0) {
+                spoil();
+            }
+            return taken;
+        }
+
+        int scenes() {
+            return scenes;
+        }
+
+        int partsIn(int scene) {
+            return scene >= 0 && scene < parts.length ? parts[scene] : 0;
+        }
+    }
+
+    /** The habits told; a habit is read anew, clause by clause, for each word that it values. */
+    private static final class Habits extends Reader {
+        static final int MOST = 4;
+        private static final int MOST_WITHIN = 6;
+        private static final int MOST_DIGITS = 4;
+        private static final int MOST_NUMBER = 1000000;
+        private static final int MOST_WORTH = 100;
+        private final byte[][] texts;
+        private final int[] sizes;
+        private int number;
+        private long word;
+        private int letters;
+        private int vowels;
+        private int firstLetter;
+        private int lettersAhead;
+        private int worth;
+        private boolean held;
+
+        Habits() {
+            texts = new byte[MOST][Tape.MOST];
+            sizes = new int[MOST];
+            number = 0;
+        }
+
+        int number() {
+            return number;
+        }
+
+        boolean has(int habit) {
+            return habit >= 0 && habit < number;
+        }
+
+        int add(Tape tape) {
+            if (tape == null || number < 0 || number >= texts.length || number >= sizes.length) {
+                return NONE;
+            }
+            sizes[number] = tape.copyTo(texts[number]);
+            number++;
+            return number - 1;
+        }
+
+        /** The worth of a last word, with the word ahead of it (0: none), within 0 .. 100. */
+        int worthOf(int habit, long last, long ahead) {
+            if (!has(habit) || habit >= texts.length || habit >= sizes.length) {
+                return 0;
+            }
+            word = last;
+            letters = Words.letters(last);
+            vowels = Words.vowels(last);
+            firstLetter = Words.firstLetter(last);
+            lettersAhead = Words.letters(ahead);
+            readAgain(texts[habit], sizes[habit]);
+            return Math.max(0, Math.min(MOST_WORTH, worth));
+        }
+
+        void takeAll() {
+            worth = 0;
+            held = false;
+            boolean more = true;
+            for (int i = 0; i < Tape.MOST && more; i++) {
+                takeClause();
+                more = takes(';');
+            }
+        }
+
+        private void takeClause() {
+            needs('y');
+            needs(':');
+            int opening = sign();
+            boolean holds = true;
+            int value = 0;
+            if (opening == '!' || opening == '(') {
+                holds = condition(0);
+                needs('?');
+                value = sum(0);
+            } else {
+                // Only what stands behind the first sum tells whether the clause has a condition.
+                value = sum(0);
+                if (isRelation(sign())) {
+                    holds = moreTruths(moreUnits(compared(value, 0), 0), 0);
+                    needs('?');
+                    value = sum(0);
+                }
+            }
+            if (holds && !held) {
+                held = true;
+                worth = value;
+            }
+        }
+
+        private boolean condition(int depth) {
+            return moreTruths(moreUnits(unit(depth), depth), depth);
+        }
+
+        private boolean moreTruths(boolean truth, int depth) {
+            boolean any = truth;
+            for (int i = 0; i < Tape.MOST && takes('|'); i++) {
+                any |= moreUnits(unit(depth), depth);
+            }
+            return any;
+        }
+
+        private boolean moreUnits(boolean unit, int depth) {
+            boolean all = unit;
+            for (int i = 0; i < Tape.MOST && takes('&'); i++) {
+                all &= unit(depth);
+            }
+            return all;
+        }
+
+        private boolean unit(int depth) {
+            int opening = sign();
+            if (opening != '!' && opening != '(') {
+                return compared(sum(depth), depth);
+            }
+            if (depth >= MOST_WITHIN) {
+                spoil();
+                return false;
+            }
+            step();
+            if (opening == '!') {
+                return !unit(depth + 1);
+            }
+            boolean holds = condition(depth + 1);
+            needs(')');
+            return holds;
+        }
+
+        private boolean compared(int left, int depth) {
+            int relation = sign();
+            if (!isRelation(relation)) {
+                spoil();
+                return false;
+            }
+            step();
+            int right = sum(depth);
+            if (relation == '=') {
+                return left == right;
+            }
+            return relation == '<' ? left < right : left > right;
+        }
+
+        private static boolean isRelation(int sign) {
+            return sign == '=' || sign == '<' || sign == '>';
+        }
+
+        private int sum(int depth) {
+            int sum = term(depth);
+            int sign = sign();
+            for (int i = 0; i < Tape.MOST && (sign == '+' || sign == '-'); i++) {
+                step();
+                int term = term(depth);
+                sum = bounded(sign == '+' ? sum + term : sum - term);
+                sign = sign();
+            }
+            return sum;
+        }
+
+        private int term(int depth) {
+            int product = atom(depth);
+            int sign = sign();
+            for (int i = 0; i < Tape.MOST && (sign == '*' || sign == '/'); i++) {
+                step();
+                int atom = atom(depth);
+                if (sign == '*') {
+                    product = bounded((long) product * atom);
+                } else {
+                    product = atom == 0 ? 0 : bounded(product / atom);
+                }
+                sign = sign();
+            }
+            return product;
+        }
+
+        private static int bounded(long value) {
+            return (int) Math.max(-MOST_NUMBER, Math.min(MOST_NUMBER, value));
+        }
+
+        private int atom(int depth) {
+            int sign = sign();
+            if (isDigit(sign)) {
+                return digits();
+            }
+            if (sign == '[' && depth < MOST_WITHIN) {
+                step();
+                int value = sum(depth + 1);
+                needs(']');
+                return value;
+            }
+            return letterValue(sign);
+        }
+
+        private int digits() {
+            int value = 0;
+            int digit = here();
+            for (int i = 0; i < MOST_DIGITS && isDigit(digit); i++) {
+                value = 10 * value + digit - '0';
+                step();
+                digit = here();
+            }
+            if (isDigit(digit)) {
+                spoil();
+            }
+            return value;
+        }
+
+        private static boolean isDigit(int sign) {
+            return sign >= '0' && sign <= '9';
+        }
+
+        /** What one of the letters n v f l w is; any other sign is wrong. */
+        private int letterValue(int sign) {
+            int value = 0;
+            switch (sign) {
+                case 'n':
+                    value = letters;
+                    break;
+                case 'v':
+                    value = vowels;
+                    break;
+                case 'f':
+                    value = firstLetter;
+                    break;
+                case 'l':
+                    value = Words.letter(word, 0);
+                    break;
+                case 'w':
+                    value = lettersAhead;
+                    break;
+                default:
+                    spoil();
+                    return 0;
+            }
+            step();
+            return value;
+        }
+    }
+
+    /** The rolls told; a speech is numbered 16 times its roll and its place there. */
+    private static final class Rolls {
+        static final int MOST = 8;
+        static final int MOST_ITEMS = 12;
+        static final int MOST_WORDS = 12;
+        static final int MOST_CUE = 2;
+        static final int PLACES = 16;
+        static final int SPEECHES = MOST * PLACES;
+        private final int[] sizes;
+        private final int[] habits;
+        private final int[] cueWords;
+        private final long[] cues;
+        private final int[] wordCounts;
+        private final long[] words;
+        private int number;
+        private int changes;
+
+        Rolls() {
+            sizes = new int[MOST];
+            habits = new int[MOST];
+            cueWords = new int[SPEECHES];
+            cues = new long[SPEECHES * MOST_CUE];
+            wordCounts = new int[SPEECHES];
+            words = new long[SPEECHES * MOST_WORDS];
+            number = 0;
+            changes = 0;
+        }
+
+        static int rollOf(int speech) {
+            return speech / PLACES;
+        }
+
+        static boolean isIn(int roll, int some) {
+            return roll >= 0 && roll < MOST && (some >> roll & 1) != 0;
+        }
+
+        static boolean isOf(int speech, int some) {
+            return speech >= 0 && isIn(rollOf(speech), some);
+        }
+
+        int number() {
+            return number;
+        }
+
+        /** Grows with each change of the rolls. */
+        int changes() {
+            return changes;
+        }
+
+        boolean hasRoll(int roll) {
+            return roll >= 0 && roll < number && roll < MOST;
+        }
+
+        /** Whether some rolls, told as bits, are at least one and all there. */
+        boolean haveAll(int some) {
+            return some > 0 && some < 1 << number;
+        }
+
+        boolean has(int speech) {
+            return speech >= 0 && speech < SPEECHES && speech % PLACES < sizeOf(rollOf(speech));
+        }
+
+        /** Whether there is such a speech, and it is of one of some rolls. */
+        boolean hasOf(int speech, int some) {
+            return isOf(speech, some) && has(speech);
+        }
+
+        boolean hasCue(int speech) {
+            return has(speech) && cueWords[speech] > 0;
+        }
+
+        int sizeOf(int roll) {
+            return hasRoll(roll) ? sizes[roll] : 0;
+        }
+
+        int speeches() {
+            int sum = 0;
+            for (int roll = 0; roll < number; roll++) {
+                sum += sizeOf(roll);
+            }
+            return sum;
+        }
+
+        int wordsOf(int speech) {
+            return speech >= 0 && speech < wordCounts.length ? wordCounts[speech] : 0;
+        }
+
+        long word(int speech, int place) {
+            if (speech < 0 || speech >= SPEECHES || place < 0 || place >= wordsOf(speech)) {
+                return 0;
+            }
+            int at = MOST_WORDS * speech + place;
+            return at < words.length ? words[at] : 0;
+        }
+
+        long lastWord(int speech) {
+            return word(speech, wordsOf(speech) - 1);
+        }
+
+        long lastButOne(int speech) {
+            return word(speech, wordsOf(speech) - 2);
+        }
+
+        int cueWordsOf(int speech) {
+            return speech >= 0 && speech < cueWords.length ? cueWords[speech] : 0;
+        }
+
+        long cueWord(int speech, int place) {
+            if (speech < 0 || speech >= SPEECHES || place < 0 || place >= cueWordsOf(speech)) {
+                return 0;
+            }
+            int at = MOST_CUE * speech + place;
+            return at < cues.length ? cues[at] : 0;
+        }
+
+        long lastCueWord(int speech) {
+            return cueWord(speech, cueWordsOf(speech) - 1);
+        }
+
+        long lastCueWordButOne(int speech) {
+            return cueWord(speech, cueWordsOf(speech) - 2);
+        }
+
+        int habitOf(int roll) {
+            return hasRoll(roll) ? habits[roll] : NONE;
+        }
+
+        void setHabit(int roll, int habit) {
+            if (hasRoll(roll)) {
+                habits[roll] = habit;
+            }
+        }
+
+        int add(RollReader reader) {
+            if (reader == null || number < 0 || number >= MOST) {
+                return NONE;
+            }
+            for (int item = 0; item < reader.items() && item < MOST_ITEMS; item++) {
+                fill(PLACES * number + item, reader, item);
+            }
+            sizes[number] = reader.items();
+            habits[number] = NONE;
+            number++;
+            changes++;
+            return number - 1;
+        }
+
+        private void fill(int speech, RollReader reader, int item) {
+            if (speech < 0 || speech >= SPEECHES) {
+                return;
+            }
+            cueWords[speech] = reader.cueWordsOf(item);
+            for (int i = 0; i < MOST_CUE; i++) {
+                cues[MOST_CUE * speech + i] = reader.cueWord(item, i);
+            }
+            wordCounts[speech] = reader.wordsOf(item);
+            for (int i = 0; i < MOST_WORDS; i++) {
+                words[MOST_WORDS * speech + i] = reader.word(item, i);
+            }
+        }
+
+        void cutTo(int kept) {
+            if (kept >= 0 && kept < number) {
+                number = kept;
+                changes++;
+            }
+        }
+    }
+
+    /** What cues are to speeches. */
+    private static final class Cues {
+        static final int NOTHING = 0;
+        static final int MET = 1;
+        static final int DOUBLE = 2;
+        static final int OWN = 3;
+        static final int SLIPPED = 4;
+        static final int LOST = 5;
+        private static final int MOST_LIMIT = 8;
+        private static final int LINE = Rolls.MOST_CUE * (Words.MOST_LETTERS + 1);
+        private final Rolls rolls;
+        private final int[] cueLine;
+        private final int[] endLine;
+        private final int[] costs;
+        private final boolean[] lost;
+        private int limit;
+
+        Cues(Rolls all) {
+            rolls = all;
+            cueLine = new int[LINE];
+            endLine = new int[LINE];
+            costs = new int[LINE + 1];
+            lost = new boolean[Rolls.SPEECHES];
+            limit = 1;
+        }
+
+        int limitNow() {
+            return limit;
+        }
+
+        boolean setLimit(int v) {
+            if (v < 0 || v > MOST_LIMIT) {
+                return false;
+            }
+            limit = v;
+            return true;
+        }
+
+        /** Whether the cue of a speech ends another one. */
+        boolean closes(int speech, int other) {
+            int cue = rolls.cueWordsOf(speech);
+            int from = rolls.wordsOf(other) - cue;
+            if (cue == 0 || from < 0) {
+                return false;
+            }
+            for (int i = 0; i < cue; i++) {
+                if (rolls.cueWord(speech, i) != rolls.word(other, from + i)) {
+                    return false;
+                }
+            }
+            return true;
+        }
+
+        int distance(int speech, int other) {
+            int cue = rolls.cueWordsOf(speech);
+            int ours = 0;
+            for (int i = 0; i < cue; i++) {
+                ours = laid(cueLine, ours, rolls.cueWord(speech, i));
+            }
+            int theirs = 0;
+            int all = rolls.wordsOf(other);
+            for (int i = Math.max(0, all - cue); i < all; i++) {
+                theirs = laid(endLine, theirs, rolls.word(other, i));
+            }
+            return changesBetween(ours, theirs);
+        }
+
+        /** Lays a word into a line, behind a blank (0) if it is not its first; how long it is then. */
+        private static int laid(int[] line, int from, long word) {
+            int at = from;
+            if (from > 0 && from < line.length) {
+                line[at] = 0;
+                at++;
+            }
+            for (int behind = Words.letters(word) - 1; behind >= 0; behind--) {
+                if (at >= 0 && at < line.length) {
+                    line[at] = Words.letter(word, behind);
+                    at++;
+                }
+            }
+            return at;
+        }
+
+        private int changesBetween(int ours, int theirs) {
+            if (ours > cueLine.length || theirs >= costs.length || theirs > endLine.length || theirs < 0) {
+                return 0;
+            }
+            for (int j = 0; j <= theirs; j++) {
+                costs[j] = j;
+            }
+            for (int i = 0; i < ours; i++) {
+                int slanted = costs[0];
+                costs[0] = i + 1;
+                for (int j = 0; j < theirs; j++) {
+                    int changed = slanted + (cueLine[i] == endLine[j] ? 0 : 1);
+                    slanted = costs[j + 1];
+                    costs[j + 1] = Math.min(changed, 1 + Math.min(costs[j], costs[j + 1]));
+                }
+            }
+            return costs[theirs];
+        }
+
+        int kindOf(int speech, int some) {
+            if (rolls.cueWordsOf(speech) == 0) {
+                return NOTHING;
+            }
+            int met = metBy(speech, some);
+            if (met > 0) {
+                return met == 1 ? MET : DOUBLE;
+            }
+            if (isOwn(speech)) {
+                return OWN;
+            }
+            return slips(speech, some) ? SLIPPED : LOST;
+        }
+
+        /** How many speeches of the others the cue of a speech ends. */
+        private int metBy(int speech, int some) {
+            int others = some & ~(1 << Rolls.rollOf(speech));
+            int met = 0;
+            for (int other = 0; other < Rolls.SPEECHES; other++) {
+                if (rolls.hasOf(other, others) && closes(speech, other)) {
+                    met++;
+                }
+            }
+            return met;
+        }
+
+        private boolean isOwn(int speech) {
+            for (int ahead = speech - speech % Rolls.PLACES; ahead < speech; ahead++) {
+                if (closes(speech, ahead)) {
+                    return true;
+                }
+            }
+            return false;
+        }
+
+        private boolean slips(int speech, int some) {
+            int others = some & ~(1 << Rolls.rollOf(speech));
+            for (int other = 0; other < Rolls.SPEECHES; other++) {
+                if (rolls.hasOf(other, others) && distance(speech, other) <= limit) {
+                    return true;
+                }
+            }
+            return false;
+        }
+
+        int howManyOfKind(int some, int kind) {
+            int number = 0;
+            for (int speech = 0; speech < Rolls.SPEECHES; speech++) {
+                if (rolls.hasOf(speech, some) && kindOf(speech, some) == kind) {
+                    number++;
+                }
+            }
+            return number;
+        }
+
+        /** The speech of the others that is least far from the cue of a speech; NONE: no others. */
+        int leastFar(int speech, int some) {
+            int others = some & ~(1 << Rolls.rollOf(speech));
+            int nearest = NONE;
+            int least = 0;
+            for (int other = 0; other < Rolls.SPEECHES; other++) {
+                if (rolls.hasOf(other, others)) {
+                    int far = distance(speech, other);
+                    if (nearest == NONE || far < least) {
+                        nearest = other;
+                        least = far;
+                    }
+                }
+            }
+            return nearest;
+        }
+
+        int wordsAtLeast(int some) {
+            int sum = 0;
+            for (int speech = 0; speech < Rolls.SPEECHES && speech < lost.length; speech++) {
+                boolean among = rolls.hasOf(speech, some);
+                lost[speech] = among && kindOf(speech, some) == LOST;
+                if (among) {
+                    sum += rolls.wordsOf(speech);
+                }
+                if (lost[speech] && !wasLost(speech)) {
+                    sum += rolls.cueWordsOf(speech);
+                }
+            }
+            return sum;
+        }
+
+        /** Whether a lower speech has a lost cue that is alike. */
+        private boolean wasLost(int speech) {
+            for (int lower = 0; lower < speech && lower < lost.length; lower++) {
+                if (lost[lower] && alike(lower, speech)) {
+                    return true;
+                }
+            }
+            return false;
+        }
+
+        private boolean alike(int one, int other) {
+            int cue = rolls.cueWordsOf(one);
+            if (cue != rolls.cueWordsOf(other)) {
+                return false;
+            }
+            for (int i = 0; i < cue; i++) {
+                if (rolls.cueWord(one, i) != rolls.cueWord(other, i)) {
+                    return false;
+                }
+            }
+            return true;
+        }
+
+        /** The rolls that met cues join with a roll, itself too, as bits. */
+        int joined(int roll) {
+            int joined = 1 << roll;
+            for (int i = 0; i < Rolls.MOST; i++) {
+                joined |= joinedAtOnce(joined);
+            }
+            return joined;
+        }
+
+        /** The rolls that share a met cue with one of some: it is of them, or what it ends. */
+        private int joinedAtOnce(int some) {
+            int all = (1 << rolls.number()) - 1;
+            int joined = 0;
+            for (int speech = 0; speech < Rolls.SPEECHES; speech++) {
+                if (rolls.has(speech) && metBy(speech, all) == 1) {
+                    int both = 1 << Rolls.rollOf(speech) | 1 << Rolls.rollOf(onlyMet(speech));
+                    if ((both & some) != 0) {
+                        joined |= both;
+                    }
+                }
+            }
+            return joined;
+        }
+
+        /** The lowest speech of another roll that the cue of a speech ends; the speech itself: none. */
+        private int onlyMet(int speech) {
+            for (int other = 0; other < Rolls.SPEECHES; other++) {
+                if (rolls.has(other) && Rolls.rollOf(other) != Rolls.rollOf(speech) && closes(speech, other)) {
+                    return other;
+                }
+            }
+            return speech;
+        }
+
+        int settledBy(int roll, int some) {
+            int settled = 0;
+            for (int speech = 0; speech < Rolls.SPEECHES; speech++) {
+                if (rolls.hasOf(speech, some) && isLoose(speech, some) && metBy(speech, 1 << roll) > 0) {
+                    settled++;
+                }
+            }
+            return settled;
+        }
+
+        /** Whether a cue is slipped or lost among some rolls. */
+        private boolean isLoose(int speech, int some) {
+            return rolls.hasCue(speech) && metBy(speech, some) == 0 && !isOwn(speech);
+        }
+
+        int settlesMost(int some) {
+            int best = NONE;
+            int most = 0;
+            for (int roll = 0; roll < rolls.number(); roll++) {
+                if (!Rolls.isIn(roll, some)) {
+                    int settled = settledBy(roll, some);
+                    if (best == NONE || settled > most) {
+                        best = roll;
+                        most = settled;
+                    }
+                }
+            }
+            return best;
+        }
+
+        /** Where a cue of two words first stands in a speech, but not at its end. */
+        int within(int speech, int other) {
+            if (rolls.cueWordsOf(speech) != 2) {
+                return NONE;
+            }
+            for (int place = 0; place < rolls.wordsOf(other) - 2; place++) {
+                if (rolls.word(other, place) == rolls.cueWord(speech, 0)
+                        && rolls.word(other, place + 1) == rolls.cueWord(speech, 1)) {
+                    return place;
+                }
+            }
+            return NONE;
+        }
+
+        int temptations(int some) {
+            int pairs = 0;
+            for (int speech = 0; speech < Rolls.SPEECHES; speech++) {
+                if (rolls.hasOf(speech, some)) {
+                    pairs += temptedIn(speech, some & ~(1 << Rolls.rollOf(speech)));
+                }
+            }
+            return pairs;
+        }
+
+        private int temptedIn(int speech, int others) {
+            int pairs = 0;
+            for (int other = 0; other < Rolls.SPEECHES; other++) {
+                if (rolls.hasOf(other, others) && within(speech, other) != NONE) {
+                    pairs++;
+                }
+            }
+            return pairs;
+        }
+    }
+
+    /**
+     * The orders of some rolls with the fewest gaps. A state is how many speeches of each roll are said
+     * and which roll spoke last; for each state stand the fewest gaps that are still to come, and in how
+     * many ways. What was counted last is kept until the rolls change.
+     */
+    private static final class Orders {
+        private static final int MOST_SPEECHES = 20;
+        private static final int MOST_STATES = 20000;
+        private static final int START = -1;
+        private static final int MOST_SLOTS = MOST_STATES * Rolls.MOST + 1;
+        private static final int FAR_TOO_MANY = 1000;
+        private final Rolls rolls;
+        private final Cues cues;
+        private final int[] roll;
+        private final int[] size;
+        private final int[] stride;
+        private final int[] offset;
+        private final int[] said;
+        private final int[] follows;
+        private final long[] pairs;
+        private int opening;
+        private int among;
+        private int states;
+        private int known;
+        private int knownAt;
+        private boolean pairsKnown;
+        private byte[] gaps;
+        private long[] ways;
+        private long[] reached;
+
+        Orders(Rolls all, Cues allCues) {
+            rolls = all;
+            cues = allCues;
+            roll = new int[Rolls.MOST];
+            size = new int[Rolls.MOST];
+            stride = new int[Rolls.MOST];
+            offset = new int[Rolls.MOST];
+            said = new int[Rolls.MOST];
+            follows = new int[MOST_SPEECHES];
+            pairs = new long[MOST_SPEECHES * MOST_SPEECHES];
+            opening = 0;
+            among = 0;
+            states = 0;
+            known = 0;
+            knownAt = 0;
+            pairsKnown = false;
+            gaps = new byte[0];
+            ways = new long[0];
+            reached = new long[0];
+        }
+
+        /** Whether there are some rolls and their orders are told; if so, they are counted then. */
+        boolean areTold(int some) {
+            if (!rolls.haveAll(some)) {
+                return false;
+            }
+            if (known == some && knownAt == rolls.changes()) {
+                return true;
+            }
+            known = 0;
+            if (!layOut(some)) {
+                return false;
+            }
+            seeWhatFollows();
+            makeRoom();
+            countBack();
+            known = some;
+            knownAt = rolls.changes();
+            pairsKnown = false;
+            return true;
+        }
+
+        /** Takes the rolls one by one; false: they have too many speeches or states. */
+        private boolean layOut(int some) {
+            among = 0;
+            states = 1;
+            int speeches = 0;
+            for (int next = 0; next < Rolls.MOST; next++) {
+                if (Rolls.isIn(next, some)) {
+                    roll[among] = next;
+                    size[among] = rolls.sizeOf(next);
+                    stride[among] = states;
+                    offset[among] = speeches;
+                    speeches += size[among];
+                    states *= size[among] + 1;
+                    among++;
+                }
+            }
+            return speeches <= MOST_SPEECHES && states <= MOST_STATES;
+        }
+
+        private int speeches() {
+            return among > 0 && among <= Rolls.MOST ? offset[among - 1] + size[among - 1] : 0;
+        }
+
+        /** For each speech those behind which it follows, as bits; and those that follow as the first. */
+        private void seeWhatFollows() {
+            opening = 0;
+            for (int r = 0; r < among; r++) {
+                for (int place = 0; place < size[r]; place++) {
+                    int next = offset[r] + place;
+                    int speech = Rolls.PLACES * roll[r] + place;
+                    if (next < follows.length) {
+                        follows[next] = endedBy(speech);
+                    }
+                    if (!rolls.hasCue(speech)) {
+                        opening |= 1 << next;
+                    }
+                }
+            }
+        }
+
+        /** The speeches of the other rolls here that the cue of a speech ends, as bits. */
+        private int endedBy(int speech) {
+            int ended = 0;
+            for (int r = 0; r < among; r++) {
+                for (int place = 0; place < size[r]; place++) {
+                    int other = Rolls.PLACES * roll[r] + place;
+                    if (Rolls.rollOf(speech) != roll[r] && cues.closes(speech, other)) {
+                        ended |= 1 << offset[r] + place;
+                    }
+                }
+            }
+            return ended;
+        }
+
+        private int gapAhead(int next, int last) {
+            if (last == START) {
+                return 1 - (opening >> next & 1);
+            }
+            return next >= 0 && next < follows.length ? 1 - (follows[next] >> last & 1) : 1;
+        }
+
+        private int startSlot() {
+            return states * among;
+        }
+
+        /** Grows the tables by doubling, so that all that a run makes stays small. */
+        private void makeRoom() {
+            int needed = startSlot() + 1;
+            if (needed > gaps.length && needed <= MOST_SLOTS) {
+                int room = Math.max(needed, Math.min(2 * gaps.length, MOST_SLOTS));
+                gaps = new byte[room];
+                ways = new long[room];
+            }
+        }
+
+        private void countBack() {
+            for (int r = 0; r < among; r++) {
+                said[r] = size[r];
+            }
+            for (int state = states - 1; state >= 0; state--) {
+                for (int r = 0; r < among; r++) {
+                    if (said[r] > 0) {
+                        settle(state, offset[r] + said[r] - 1, state * among + r);
+                    }
+                }
+                stepBack();
+            }
+            clearSaid();
+            settle(0, START, startSlot());
+        }
+
+        /** Says one state less: the first roll's speeches change fastest. */
+        private void stepBack() {
+            for (int r = 0; r < among; r++) {
+                if (said[r] > 0) {
+                    said[r]--;
+                    return;
+                }
+                said[r] = size[r];
+            }
+        }
+
+        private void stepOn() {
+            for (int r = 0; r < among; r++) {
+                if (said[r] < size[r]) {
+                    said[r]++;
+                    return;
+                }
+                said[r] = 0;
+            }
+        }
+
+        private void clearSaid() {
+            for (int r = 0; r < said.length; r++) {
+                said[r] = 0;
+            }
+        }
+
+        /** Counts for a state and the speech last said, from the states that may come next. */
+        private void settle(int state, int last, int slot) {
+            int fewest = FAR_TOO_MANY;
+            long number = 1;
+            for (int r = 0; r < among; r++) {
+                if (said[r] < size[r]) {
+                    int next = slotBehind(state, r);
+                    int toCome = gapsAt(next) + gapAhead(offset[r] + said[r], last);
+                    if (toCome < fewest) {
+                        fewest = toCome;
+                        number = waysAt(next);
+                    } else if (toCome == fewest) {
+                        number += waysAt(next);
+                    }
+                }
+            }
+            if (slot >= 0 && slot < gaps.length && slot < ways.length) {
+                gaps[slot] = fewest == FAR_TOO_MANY ? 0 : (byte) fewest;
+                ways[slot] = number;
+            }
+        }
+
+        private int slotBehind(int state, int r) {
+            return (state + stride[r]) * among + r;
+        }
+
+        private int gapsAt(int slot) {
+            return slot >= 0 && slot < gaps.length ? gaps[slot] : 0;
+        }
+
+        private long waysAt(int slot) {
+            return slot >= 0 && slot < ways.length ? ways[slot] : 0;
+        }
+
+        /** Whether a roll may speak next, with no more gaps than the fewest. */
+        private boolean isBest(int state, int last, int slot, int r) {
+            if (said[r] >= size[r]) {
+                return false;
+            }
+            return gapsAt(slotBehind(state, r)) + gapAhead(offset[r] + said[r], last) == gapsAt(slot);
+        }
+
+        int fewestGaps() {
+            return gapsAt(startSlot());
+        }
+
+        long howManyBest() {
+            return waysAt(startSlot());
+        }
+
+        /** The speech at a place of the first of the best orders. */
+        int firstAt(int place) {
+            if (place < 0 || place >= speeches()) {
+                return NONE;
+            }
+            clearSaid();
+            int state = 0;
+            int last = START;
+            int slot = startSlot();
+            int speech = NONE;
+            for (int i = 0; i <= place; i++) {
+                int r = lowestBest(state, last, slot);
+                speech = Rolls.PLACES * roll[r] + said[r];
+                last = offset[r] + said[r];
+                slot = slotBehind(state, r);
+                state += stride[r];
+                said[r]++;
+            }
+            return speech;
+        }
+
+        private int lowestBest(int state, int last, int slot) {
+            for (int r = 0; r < among; r++) {
+                if (isBest(state, last, slot, r)) {
+                    return r;
+                }
+            }
+            return 0;
+        }
+
+        int certain(int one, int other) {
+            if (!pairsKnown) {
+                countPairs();
+                pairsKnown = true;
+            }
+            int at = MOST_SPEECHES * numberOf(one) + numberOf(other);
+            long together = at >= 0 && at < pairs.length ? pairs[at] : 0;
+            if (together == 0) {
+                return 0;
+            }
+            return together == howManyBest() ? 1 : NONE;
+        }
+
+        /** Which of the speeches here a speech is. */
+        private int numberOf(int speech) {
+            for (int r = 0; r < among; r++) {
+                if (roll[r] == Rolls.rollOf(speech)) {
+                    return offset[r] + speech % Rolls.PLACES;
+                }
+            }
+            return 0;
+        }
+
+        /** Counts for each two speeches the best orders that have the one right ahead of the other. */
+        private void countPairs() {
+            if (reached.length < gaps.length) {
+                reached = new long[gaps.length];
+            }
+            for (int i = 0; i < reached.length; i++) {
+                reached[i] = 0;
+            }
+            for (int i = 0; i < pairs.length; i++) {
+                pairs[i] = 0;
+            }
+            clearSaid();
+            spread(0, START, startSlot(), 1);
+            for (int state = 0; state < states; state++) {
+                for (int r = 0; r < among; r++) {
+                    int slot = state * among + r;
+                    if (said[r] > 0 && slot < reached.length) {
+                        spread(state, offset[r] + said[r] - 1, slot, reached[slot]);
+                    }
+                }
+                stepOn();
+            }
+        }
+
+        /** Hands the ways that lead to a state and its last speech on to the best that come next. */
+        private void spread(int state, int last, int slot, long led) {
+            for (int r = 0; r < among && led > 0; r++) {
+                if (isBest(state, last, slot, r)) {
+                    int next = slotBehind(state, r);
+                    int pair = MOST_SPEECHES * last + offset[r] + said[r];
+                    if (next < reached.length) {
+                        reached[next] += led;
+                    }
+                    if (last != START && pair < pairs.length) {
+                        pairs[pair] += led * waysAt(next);
+                    }
+                }
+            }
+        }
+    }
+
+    /** The play told by hand, and what is said when some rolls rehearse by their cues alone. */
+    private static final class Stage {
+        private static final int MOST = Rolls.MOST * Rolls.MOST_ITEMS;
+        private final Rolls rolls;
+        private final Cues cues;
+        private final int[] play;
+        private final int[] rehearsed;
+        private final int[] waits;
+        private int played;
+        private int said;
+
+        Stage(Rolls all, Cues allCues) {
+            rolls = all;
+            cues = allCues;
+            play = new int[MOST];
+            rehearsed = new int[MOST];
+            waits = new int[Rolls.MOST];
+            played = 0;
+            said = 0;
+        }
+
+        int played() {
+            return played;
+        }
+
+        int playedAt(int place) {
+            return place >= 0 && place < played && place < play.length ? play[place] : NONE;
+        }
+
+        void cutTo(int kept) {
+            if (kept >= 0 && kept < played) {
+                played = kept;
+            }
+        }
+
+        /** A roll's next speech is the play's next. */
+        int goOn(int roll) {
+            int next = 0;
+            for (int place = 0; place < played; place++) {
+                if (Rolls.rollOf(playedAt(place)) == roll) {
+                    next++;
+                }
+            }
+            if (next >= rolls.sizeOf(roll) || played < 0 || played >= play.length) {
+                return NONE;
+            }
+            play[played] = Rolls.PLACES * roll + next;
+            played++;
+            return play[played - 1];
+        }
+
+        private boolean hasGapAhead(int place) {
+            int speech = playedAt(place);
+            if (place == 0) {
+                return rolls.hasCue(speech);
+            }
+            int last = playedAt(place - 1);
+            return Rolls.rollOf(last) == Rolls.rollOf(speech) || !cues.closes(speech, last);
+        }
+
+        /** The i-th place of the play with a gap ahead of it; i NONE: how many there are. */
+        int gapOfPlay(int i) {
+            int gaps = 0;
+            for (int place = 0; place < played; place++) {
+                if (hasGapAhead(place)) {
+                    if (gaps == i) {
+                        return place;
+                    }
+                    gaps++;
+                }
+            }
+            return i == NONE ? gaps : NONE;
+        }
+
+        void rehearseAll(int some) {
+            int ready = 0;
+            for (int roll = 0; roll < waits.length; roll++) {
+                waits[roll] = 0;
+                if (Rolls.isIn(roll, some) && !rolls.hasCue(Rolls.PLACES * roll)) {
+                    ready |= 1 << roll;
+                }
+            }
+            said = 0;
+            for (int i = 0; i < rehearsed.length && ready != 0; i++) {
+                int roll = lowest(ready);
+                rehearsed[i] = Rolls.PLACES * roll + waits[roll];
+                said++;
+                waits[roll]++;
+                ready = ready & ~(1 << roll) | readyBehind(rehearsed[i], some & ~(1 << roll));
+            }
+        }
+
+        private static int lowest(int ready) {
+            for (int roll = 0; roll < Rolls.MOST; roll++) {
+                if (Rolls.isIn(roll, ready)) {
+                    return roll;
+                }
+            }
+            return 0;
+        }
+
+        /** Which of some rolls wait with a cue that ends a speech. */
+        private int readyBehind(int speech, int some) {
+            int ready = 0;
+            for (int roll = 0; roll < waits.length; roll++) {
+                int waiting = Rolls.PLACES * roll + waits[roll];
+                if (Rolls.isIn(roll, some) && waits[roll] < rolls.sizeOf(roll) && cues.closes(waiting, speech)) {
+                    ready |= 1 << roll;
+                }
+            }
+            return ready;
+        }
+
+        int said() {
+            return said;
+        }
+
+        int saidAt(int place) {
+            return place >= 0 && place < said && place < rehearsed.length ? rehearsed[place] : NONE;
+        }
+
+        /** In how many places of the play another speech, or none, was said. */
+        int saidOtherwise() {
+            int places = 0;
+            for (int place = 0; place < played; place++) {
+                if (saidAt(place) != playedAt(place)) {
+                    places++;
+                }
+            }
+            return places;
+        }
+    }
+
+    /** The plots told, and coats for their parts. */
+    private static final class Plots {
+        static final int MOST_SCENES = 20;
+        static final int PARTS = 10;
+        private static final int MOST = 4;
+        private static final int MOST_CHANGE = 3;
+        private static final int MOST_CREW = 10;
+        private final int[] parts;
+        private final int[] sizes;
+        private final int[] clashes;
+        private final int[] coats;
+        private int number;
+        private int boys;
+
+        Plots() {
+            parts = new int[MOST * MOST_SCENES];
+            sizes = new int[MOST];
+            clashes = new int[PARTS];
+            coats = new int[PARTS];
+            number = 0;
+            boys = 0;
+        }
+
+        static boolean isChange(int change) {
+            return change >= 0 && change <= MOST_CHANGE;
+        }
+
+        static boolean isCrew(int crew) {
+            return crew >= 0 && crew <= MOST_CREW;
+        }
+
+        int number() {
+            return number;
+        }
+
+        int boysNow() {
+            return boys;
+        }
+
+        boolean setBoys(int bits) {
+            if (bits < 0 || bits >= 1 << PARTS) {
+                return false;
+            }
+            boys = bits;
+            return true;
+        }
+
+        int add(PlotReader reader) {
+            if (reader == null || number < 0 || number >= MOST) {
+                return NONE;
+            }
+            for (int scene = 0; scene < reader.scenes() && scene < MOST_SCENES; scene++) {
+                parts[MOST_SCENES * number + scene] = reader.partsIn(scene);
+            }
+            sizes[number] = reader.scenes();
+            number++;
+            return number - 1;
+        }
+
+        boolean has(int plot) {
+            return plot >= 0 && plot < number && plot < MOST;
+        }
+
+        private int sizeOf(int plot) {
+            return has(plot) ? sizes[plot] : 0;
+        }
+
+        /** The parts in a scene, as bits; NONE: no such scene. */
+        int partsIn(int plot, int scene) {
+            if (scene < 0 || scene >= sizeOf(plot)) {
+                return NONE;
+            }
+            int at = MOST_SCENES * plot + scene;
+            return at < parts.length ? parts[at] : NONE;
+        }
+
+        int partsOf(int plot) {
+            int all = 0;
+            for (int scene = 0; scene < sizeOf(plot); scene++) {
+                all |= partsIn(plot, scene);
+            }
+            return all;
+        }
+
+        boolean hasPart(int plot, int part) {
+            return part >= 0 && part < PARTS && isIn(part, partsOf(plot));
+        }
+
+        private static boolean isIn(int part, int bits) {
+            return (bits >> part & 1) != 0;
+        }
+
+        int fullest(int plot) {
+            int fullest = 0;
+            int most = 0;
+            for (int scene = 0; scene < sizeOf(plot); scene++) {
+                int number = Integer.bitCount(partsIn(plot, scene));
+                if (number > most) {
+                    fullest = scene;
+                    most = number;
+                }
+            }
+            return fullest;
+        }
+
+        boolean bar(int plot, int one, int other, int change) {
+            return isIn(one, boys) == isIn(other, boys) && areNear(plot, one, other, change);
+        }
+
+        private boolean areNear(int plot, int one, int other, int change) {
+            int scenes = sizeOf(plot);
+            for (int scene = 0; scene < scenes; scene++) {
+                int until = Math.min(scenes - 1, scene + change);
+                for (int near = Math.max(0, scene - change); near <= until; near++) {
+                    if (isIn(one, partsIn(plot, scene)) && isIn(other, partsIn(plot, near))) {
+                        return true;
+                    }
+                }
+            }
+            return false;
+        }
+
+        /** For each part those that may not have its coat, as bits. */
+        private void layClashes(int plot, int change) {
+            for (int one = 0; one < PARTS; one++) {
+                clashes[one] = 0;
+                for (int other = 0; other < PARTS; other++) {
+                    boolean unlike = isIn(one, boys) != isIn(other, boys);
+                    if (one != other && (unlike || bar(plot, one, other, change))) {
+                        clashes[one] |= 1 << other;
+                    }
+                }
+            }
+        }
+
+        /** Gives each part of a plot its coat; how many coats that needs. */
+        int dressAll(int plot, int change) {
+            layClashes(plot, change);
+            return fewestCoats(partsOf(plot));
+        }
+
+        int coatOf(int part) {
+            return part >= 0 && part < coats.length ? coats[part] : NONE;
+        }
+
+        boolean suffice(int plot, int change, int men, int forBoys) {
+            layClashes(plot, change);
+            int all = partsOf(plot);
+            return fewestCoats(all & ~boys) <= men && fewestCoats(all & boys) <= forBoys;
+        }
+
+        private int fewestCoats(int some) {
+            for (int most = 0; most < PARTS; most++) {
+                if (dress(some, 0, 0, most)) {
+                    return most;
+                }
+            }
+            dress(some, 0, 0, PARTS);
+            return PARTS;
+        }
+
+        /** Dresses some parts from one on, the lowest coats first, when so many coats are worn already. */
+        private boolean dress(int some, int part, int worn, int most) {
+            if (part >= PARTS) {
+                return true;
+            }
+            if (!isIn(part, some)) {
+                return dress(some, part + 1, worn, most);
+            }
+            for (int coat = 0; coat <= worn && coat < most; coat++) {
+                if (isFree(some, part, coat)) {
+                    coats[part] = coat;
+                    if (dress(some, part + 1, Math.max(worn, coat + 1), most)) {
+                        return true;
+                    }
+                }
+            }
+            return false;
+        }
+
+        /** Whether no lower part that clashes with a part has a coat. */
+        private boolean isFree(int some, int part, int coat) {
+            for (int lower = 0; lower < part; lower++) {
+                if (isIn(lower, some & clashes[part]) && coats[lower] == coat) {
+                    return false;
+                }
+            }
+            return true;
+        }
+    }
+}
