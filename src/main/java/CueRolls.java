@@ -1403,33 +1403,36 @@ public final class CueRolls {
     }
 
     /**
-     * The orders of some rolls with the fewest gaps. A state is how many speeches of each roll are said
-     * and which roll spoke last; for each state stand the fewest gaps that are still to come, and in how
+     * The orders of some rolls with the fewest gaps. A state is how many speeches of each roll are said;
+     * for each state and the roll that spoke last a slot tells how few gaps are still to come, and in how
      * many ways. What was counted last is kept until the rolls change.
      */
     private static final class Orders {
         private static final int MOST_SPEECHES = 20;
         private static final int MOST_STATES = 20000;
-        private static final int START = -1;
         private static final int MOST_SLOTS = MOST_STATES * Rolls.MOST + 1;
+        /** What stands ahead of the first speech, as if it were one speech more. */
+        private static final int START = MOST_SPEECHES;
         private static final int FAR_TOO_MANY = 1000;
+        private static final int GAP_BITS = 5;
         private final Rolls rolls;
         private final Cues cues;
         private final int[] roll;
         private final int[] size;
         private final int[] stride;
         private final int[] offset;
-        private final int[] said;
         private final int[] follows;
+        private final int[] said;
+        private final int[] toCome;
+        private final int[] heeds;
+        private final long[] ways;
         private final long[] pairs;
-        private int opening;
         private int among;
         private int states;
         private int known;
         private int knownAt;
         private boolean pairsKnown;
-        private byte[] gaps;
-        private long[] ways;
+        private long[] slots;
         private long[] reached;
 
         Orders(Rolls all, Cues allCues) {
@@ -1439,17 +1442,18 @@ public final class CueRolls {
             size = new int[Rolls.MOST];
             stride = new int[Rolls.MOST];
             offset = new int[Rolls.MOST];
-            said = new int[Rolls.MOST];
             follows = new int[MOST_SPEECHES];
-            pairs = new long[MOST_SPEECHES * MOST_SPEECHES];
-            opening = 0;
+            said = new int[Rolls.MOST];
+            toCome = new int[Rolls.MOST];
+            heeds = new int[Rolls.MOST];
+            ways = new long[Rolls.MOST];
+            pairs = new long[(MOST_SPEECHES + 1) * MOST_SPEECHES];
             among = 0;
             states = 0;
             known = 0;
             knownAt = 0;
             pairsKnown = false;
-            gaps = new byte[0];
-            ways = new long[0];
+            slots = new long[0];
             reached = new long[0];
         }
 
@@ -1497,18 +1501,14 @@ public final class CueRolls {
             return among > 0 && among <= Rolls.MOST ? offset[among - 1] + size[among - 1] : 0;
         }
 
-        /** For each speech those behind which it follows, as bits; and those that follow as the first. */
+        /** For each speech those behind which it follows, as bits. */
         private void seeWhatFollows() {
-            opening = 0;
             for (int r = 0; r < among; r++) {
                 for (int place = 0; place < size[r]; place++) {
                     int next = offset[r] + place;
                     int speech = Rolls.PLACES * roll[r] + place;
                     if (next < follows.length) {
-                        follows[next] = endedBy(speech);
-                    }
-                    if (!rolls.hasCue(speech)) {
-                        opening |= 1 << next;
+                        follows[next] = rolls.hasCue(speech) ? endedBy(speech) : 1 << START;
                     }
                 }
             }
@@ -1528,24 +1528,27 @@ public final class CueRolls {
             return ended;
         }
 
-        private int gapAhead(int next, int last) {
-            if (last == START) {
-                return 1 - (opening >> next & 1);
-            }
-            return next >= 0 && next < follows.length ? 1 - (follows[next] >> last & 1) : 1;
-        }
-
         private int startSlot() {
             return states * among;
+        }
+
+        private int slotBehind(int state, int r) {
+            return (state + stride[r]) * among + r;
+        }
+
+        private int gapsAt(int slot) {
+            return slot >= 0 && slot < slots.length ? (int) (slots[slot] & (1 << GAP_BITS) - 1) : 0;
+        }
+
+        private long waysAt(int slot) {
+            return slot >= 0 && slot < slots.length ? slots[slot] >>> GAP_BITS : 0;
         }
 
         /** Grows the tables by doubling, so that all that a run makes stays small. */
         private void makeRoom() {
             int needed = startSlot() + 1;
-            if (needed > gaps.length && needed <= MOST_SLOTS) {
-                int room = Math.max(needed, Math.min(2 * gaps.length, MOST_SLOTS));
-                gaps = new byte[room];
-                ways = new long[room];
+            if (needed > slots.length && needed <= MOST_SLOTS) {
+                slots = new long[Math.max(needed, Math.min(2 * slots.length, MOST_SLOTS))];
             }
         }
 
@@ -1553,19 +1556,20 @@ public final class CueRolls {
             for (int r = 0; r < among; r++) {
                 said[r] = size[r];
             }
-            for (int state = states - 1; state >= 0; state--) {
+            for (int state = states - 1; state > 0; state--) {
+                lookAhead(state);
                 for (int r = 0; r < among; r++) {
                     if (said[r] > 0) {
-                        settle(state, offset[r] + said[r] - 1, state * among + r);
+                        settle(offset[r] + said[r] - 1, state * among + r);
                     }
                 }
                 stepBack();
             }
-            clearSaid();
-            settle(0, START, startSlot());
+            lookAhead(0);
+            settle(START, startSlot());
         }
 
-        /** Says one state less: the first roll's speeches change fastest. */
+        /** The state that is one less: the first roll's speeches change fastest. */
         private void stepBack() {
             for (int r = 0; r < among; r++) {
                 if (said[r] > 0) {
@@ -1592,46 +1596,40 @@ public final class CueRolls {
             }
         }
 
-        /** Counts for a state and the speech last said, from the states that may come next. */
-        private void settle(int state, int last, int slot) {
-            int fewest = FAR_TOO_MANY;
-            long number = 1;
+        /** Of each roll's next speech: the gaps to come if it does not follow, the ways, what it follows. */
+        private void lookAhead(int state) {
             for (int r = 0; r < among; r++) {
-                if (said[r] < size[r]) {
-                    int next = slotBehind(state, r);
-                    int toCome = gapsAt(next) + gapAhead(offset[r] + said[r], last);
-                    if (toCome < fewest) {
-                        fewest = toCome;
-                        number = waysAt(next);
-                    } else if (toCome == fewest) {
-                        number += waysAt(next);
-                    }
+                int next = offset[r] + said[r];
+                toCome[r] = FAR_TOO_MANY;
+                if (said[r] < size[r] && next < follows.length) {
+                    int slot = slotBehind(state, r);
+                    toCome[r] = 1 + gapsAt(slot);
+                    ways[r] = waysAt(slot);
+                    heeds[r] = follows[next];
                 }
             }
-            if (slot >= 0 && slot < gaps.length && slot < ways.length) {
-                gaps[slot] = fewest == FAR_TOO_MANY ? 0 : (byte) fewest;
-                ways[slot] = number;
+        }
+
+        private int gapsIfNext(int r, int last) {
+            return toCome[r] < FAR_TOO_MANY ? toCome[r] - (heeds[r] >> last & 1) : FAR_TOO_MANY;
+        }
+
+        /** Fills a slot from those that may come next, behind the speech said last. */
+        private void settle(int last, int slot) {
+            int fewest = FAR_TOO_MANY;
+            long number = 0;
+            for (int r = 0; r < among; r++) {
+                int gaps = gapsIfNext(r, last);
+                if (gaps < fewest) {
+                    fewest = gaps;
+                    number = ways[r];
+                } else if (gaps == fewest && gaps < FAR_TOO_MANY) {
+                    number += ways[r];
+                }
             }
-        }
-
-        private int slotBehind(int state, int r) {
-            return (state + stride[r]) * among + r;
-        }
-
-        private int gapsAt(int slot) {
-            return slot >= 0 && slot < gaps.length ? gaps[slot] : 0;
-        }
-
-        private long waysAt(int slot) {
-            return slot >= 0 && slot < ways.length ? ways[slot] : 0;
-        }
-
-        /** Whether a roll may speak next, with no more gaps than the fewest. */
-        private boolean isBest(int state, int last, int slot, int r) {
-            if (said[r] >= size[r]) {
-                return false;
+            if (slot >= 0 && slot < slots.length) {
+                slots[slot] = fewest == FAR_TOO_MANY ? 1L << GAP_BITS : number << GAP_BITS | fewest;
             }
-            return gapsAt(slotBehind(state, r)) + gapAhead(offset[r] + said[r], last) == gapsAt(slot);
         }
 
         int fewestGaps() {
@@ -1664,8 +1662,9 @@ public final class CueRolls {
         }
 
         private int lowestBest(int state, int last, int slot) {
+            lookAhead(state);
             for (int r = 0; r < among; r++) {
-                if (isBest(state, last, slot, r)) {
+                if (gapsIfNext(r, last) == gapsAt(slot)) {
                     return r;
                 }
             }
@@ -1677,8 +1676,8 @@ public final class CueRolls {
                 countPairs();
                 pairsKnown = true;
             }
-            int at = MOST_SPEECHES * numberOf(one) + numberOf(other);
-            long together = at >= 0 && at < pairs.length ? pairs[at] : 0;
+            int pair = MOST_SPEECHES * numberOf(one) + numberOf(other);
+            long together = pair >= 0 && pair < pairs.length ? pairs[pair] : 0;
             if (together == 0) {
                 return 0;
             }
@@ -1697,8 +1696,25 @@ public final class CueRolls {
 
         /** Counts for each two speeches the best orders that have the one right ahead of the other. */
         private void countPairs() {
-            if (reached.length < gaps.length) {
-                reached = new long[gaps.length];
+            clearPairs();
+            clearSaid();
+            lookAhead(0);
+            spread(0, START, startSlot(), 1);
+            for (int state = 1; state < states; state++) {
+                stepOn();
+                lookAhead(state);
+                for (int r = 0; r < among; r++) {
+                    int slot = state * among + r;
+                    if (said[r] > 0 && slot < reached.length && reached[slot] > 0) {
+                        spread(state, offset[r] + said[r] - 1, slot, reached[slot]);
+                    }
+                }
+            }
+        }
+
+        private void clearPairs() {
+            if (reached.length < slots.length) {
+                reached = new long[slots.length];
             }
             for (int i = 0; i < reached.length; i++) {
                 reached[i] = 0;
@@ -1706,30 +1722,17 @@ public final class CueRolls {
             for (int i = 0; i < pairs.length; i++) {
                 pairs[i] = 0;
             }
-            clearSaid();
-            spread(0, START, startSlot(), 1);
-            for (int state = 0; state < states; state++) {
-                for (int r = 0; r < among; r++) {
-                    int slot = state * among + r;
-                    if (said[r] > 0 && slot < reached.length) {
-                        spread(state, offset[r] + said[r] - 1, slot, reached[slot]);
-                    }
-                }
-                stepOn();
-            }
         }
 
-        /** Hands the ways that lead to a state and its last speech on to the best that come next. */
+        /** Hands the ways that lead to a slot on to the best that come next. */
         private void spread(int state, int last, int slot, long led) {
-            for (int r = 0; r < among && led > 0; r++) {
-                if (isBest(state, last, slot, r)) {
+            for (int r = 0; r < among; r++) {
+                if (gapsIfNext(r, last) == gapsAt(slot)) {
                     int next = slotBehind(state, r);
                     int pair = MOST_SPEECHES * last + offset[r] + said[r];
-                    if (next < reached.length) {
+                    if (next < reached.length && pair < pairs.length) {
                         reached[next] += led;
-                    }
-                    if (last != START && pair < pairs.length) {
-                        pairs[pair] += led * waysAt(next);
+                        pairs[pair] += led * ways[r];
                     }
                 }
             }
@@ -2021,27 +2024,26 @@ public final class CueRolls {
         }
 
         private int fewestCoats(int some) {
-            for (int most = 0; most < PARTS; most++) {
-                if (dress(some, 0, 0, most)) {
+            for (int most = 0; most <= PARTS; most++) {
+                if (dress(clashes, coats, some, 0, 0, most)) {
                     return most;
                 }
             }
-            dress(some, 0, 0, PARTS);
-            return PARTS;
+            return NONE;
         }
 
         /** Dresses some parts from one on, the lowest coats first, when so many coats are worn already. */
-        private boolean dress(int some, int part, int worn, int most) {
-            if (part >= PARTS) {
+        private static boolean dress(int[] clashes, int[] coats, int some, int part, int worn, int most) {
+            if (part >= coats.length || part >= clashes.length) {
                 return true;
             }
             if (!isIn(part, some)) {
-                return dress(some, part + 1, worn, most);
+                return dress(clashes, coats, some, part + 1, worn, most);
             }
             for (int coat = 0; coat <= worn && coat < most; coat++) {
-                if (isFree(some, part, coat)) {
+                if (isFree(coats, some & clashes[part], part, coat)) {
                     coats[part] = coat;
-                    if (dress(some, part + 1, Math.max(worn, coat + 1), most)) {
+                    if (dress(clashes, coats, some, part + 1, Math.max(worn, coat + 1), most)) {
                         return true;
                     }
                 }
@@ -2049,10 +2051,10 @@ public final class CueRolls {
             return false;
         }
 
-        /** Whether no lower part that clashes with a part has a coat. */
-        private boolean isFree(int some, int part, int coat) {
-            for (int lower = 0; lower < part; lower++) {
-                if (isIn(lower, some & clashes[part]) && coats[lower] == coat) {
+        /** Whether none of some parts lower than one has a coat. */
+        private static boolean isFree(int[] coats, int some, int part, int coat) {
+            for (int lower = 0; lower < part && lower < coats.length; lower++) {
+                if (isIn(lower, some) && coats[lower] == coat) {
                     return false;
                 }
             }
