@@ -94,7 +94,7 @@ public final class CueRolls {
             case SORT_PLOT:
                 return plots.add(plotReader);
             default:
-                return habits.add(tape);
+                return habits.add();
         }
     }
 
@@ -403,16 +403,6 @@ public final class CueRolls {
             size = n;
             return true;
         }
-
-        /** Lays the bytes into a row of its own and answers how many they are. */
-        int copyTo(byte[] row) {
-            int copied = 0;
-            for (int i = 0; row != null && i < size && i < row.length && i < bytes.length; i++) {
-                row[i] = bytes[i];
-                copied++;
-            }
-            return copied;
-        }
     }
 
     /** Words as numbers: five bits a letter (1 for a .. 26), the first letter highest; 0 is no word. */
@@ -434,7 +424,7 @@ public final class CueRolls {
 
         static int letters(long word) {
             int letters = 0;
-            for (int i = 0; i < MOST_LETTERS && letter(word, i) != 0; i++) {
+            for (int i = 0; i < MOST_LETTERS && word >>> BITS * i != 0; i++) {
                 letters++;
             }
             return letters;
@@ -464,43 +454,47 @@ public final class CueRolls {
         }
     }
 
-    /** Reads a text; once a byte is wrong it stays there, and nothing fits any more. */
+    /**
+     * Reads a text token by token. A token is a sign (its byte), or bytes that are joined, as the letters
+     * of a word are; blanks only part them. Once a token is wrong it stays there, and nothing fits any more.
+     */
     private abstract static class Reader {
-        private static final int END = -1;
-        private static final int SPOILT = -2;
-        private final byte[] bytes;
-        private int size;
+        /** What stands behind the last byte. */
+        static final int END = 256;
+        /** A byte that nothing can take. */
+        static final int WRONG = 257;
+        /** A token of joined bytes; it stands as this and its value together. */
+        static final int JOINED = 1000;
+        static final int MOST_TOKENS = Tape.MOST + 1;
+        private final long[] cut;
+        private final int[] places;
+        private long[] row;
         private int at;
         private int fault;
 
         Reader() {
-            bytes = new byte[Tape.MOST];
-            size = 0;
+            cut = new long[MOST_TOKENS];
+            places = new int[MOST_TOKENS];
+            row = cut;
             at = 0;
             fault = NONE;
         }
 
-        /** Takes all that the sort of text may have, up to its end or the first wrong byte. */
+        /** Whether a byte is joined with those of its kind next to it. */
+        abstract boolean joins(int sign);
+
+        /** How many bytes are joined at most. */
+        abstract int mostJoined();
+
+        /** The value of joined bytes with one more. */
+        abstract long grown(long value, int sign);
+
+        /** Takes all that the sort of text may have, up to its end or the first wrong token. */
         abstract void takeAll();
 
         final int faultOf(Tape tape) {
-            size = tape == null ? 0 : tape.copyTo(bytes);
-            return faultOfBytes();
-        }
-
-        /** Reads a row that was laid before. */
-        final void readAgain(byte[] row, int length) {
-            size = 0;
-            for (int i = 0; row != null && i < length && i < row.length && i < bytes.length; i++) {
-                bytes[i] = row[i];
-                size++;
-            }
-            faultOfBytes();
-        }
-
-        private int faultOfBytes() {
-            at = 0;
-            fault = NONE;
+            cutUp(tape);
+            begin(cut);
             takeAll();
             if (sign() != END) {
                 spoil();
@@ -508,19 +502,49 @@ public final class CueRolls {
             return fault;
         }
 
-        final int here() {
-            if (fault != NONE) {
-                return SPOILT;
+        private void cutUp(Tape tape) {
+            int tokens = 0;
+            int run = 0;
+            for (int place = 0; place < tape.size() && tokens < Tape.MOST; place++) {
+                int sign = tape.at(place);
+                boolean joins = joins(sign);
+                if (joins && run > 0 && run < mostJoined() && tokens > 0) {
+                    cut[tokens - 1] = JOINED + grown(cut[tokens - 1] - JOINED, sign);
+                } else if (sign != ' ') {
+                    boolean tooMany = joins && run > 0;
+                    cut[tokens] = tooMany ? WRONG : joins ? JOINED + grown(0, sign) : sign;
+                    places[tokens] = place;
+                    tokens++;
+                }
+                run = joins ? run + 1 : 0;
             }
-            return at >= 0 && at < size && at < bytes.length ? bytes[at] & 255 : END;
+            cut[tokens] = END;
+            places[tokens] = tape.size();
         }
 
-        /** The byte that stands here behind blanks. */
-        final int sign() {
-            for (int i = 0; i < Tape.MOST && here() == ' '; i++) {
-                at++;
+        final void begin(long[] tokens) {
+            row = tokens;
+            at = 0;
+            fault = NONE;
+        }
+
+        final void copyTo(long[] tokens) {
+            for (int i = 0; tokens != null && i < tokens.length && i < cut.length; i++) {
+                tokens[i] = cut[i];
             }
-            return here();
+        }
+
+        /** The token that stands here. */
+        final int sign() {
+            if (fault != NONE || row == null || at < 0 || at >= row.length) {
+                return WRONG;
+            }
+            return row[at] >= JOINED ? JOINED : (int) row[at];
+        }
+
+        /** The value of the joined bytes that stand here. */
+        final long value() {
+            return row != null && at >= 0 && at < row.length ? row[at] - JOINED : 0;
         }
 
         final void step() {
@@ -536,14 +560,16 @@ public final class CueRolls {
         }
 
         final void needs(int sign) {
-            if (!takes(sign)) {
+            if (sign() == sign) {
+                at++;
+            } else {
                 spoil();
             }
         }
 
         final void spoil() {
-            if (fault == NONE) {
-                fault = at;
+            if (fault == NONE && at >= 0 && at < places.length) {
+                fault = places[at];
             }
         }
     }
@@ -564,55 +590,42 @@ public final class CueRolls {
             items = 0;
         }
 
+        boolean joins(int sign) {
+            return sign >= 'a' && sign <= 'z';
+        }
+
+        int mostJoined() {
+            return Words.MOST_LETTERS;
+        }
+
+        long grown(long value, int sign) {
+            return Words.with(value, sign);
+        }
+
         void takeAll() {
             items = 0;
             boolean more = true;
             for (int i = 0; i < Rolls.MOST_ITEMS && more; i++) {
-                takeCue(i);
+                cueWords[i] = takes('-') ? 0 : takeWords(cues, Rolls.MOST_CUE * i, Rolls.MOST_CUE);
                 needs('>');
-                takeSpeech(i);
+                wordCounts[i] = takeWords(words, Rolls.MOST_WORDS * i, Rolls.MOST_WORDS);
                 items++;
                 more = i + 1 < Rolls.MOST_ITEMS && takes(';');
             }
         }
 
-        private void takeCue(int item) {
+        /** Takes one word at least, so many at most; how many they are. */
+        private int takeWords(long[] into, int from, int most) {
             int taken = 0;
-            if (!takes('-')) {
-                for (int i = 0; i < Rolls.MOST_CUE && (i == 0 || isLetter(sign())); i++) {
-                    cues[Rolls.MOST_CUE * item + i] = word();
-                    taken++;
-                }
-            }
-            cueWords[item] = taken;
-        }
-
-        private void takeSpeech(int item) {
-            int taken = 0;
-            for (int i = 0; i < Rolls.MOST_WORDS && (i == 0 || isLetter(sign())); i++) {
-                words[Rolls.MOST_WORDS * item + i] = word();
+            for (int i = 0; i < most && from + i < into.length && sign() == JOINED; i++) {
+                into[from + i] = value();
                 taken++;
-            }
-            wordCounts[item] = taken;
-        }
-
-        /** The word that has to stand here; a ninth letter of it is wrong. */
-        private long word() {
-            long word = 0;
-            int letter = sign();
-            for (int i = 0; i < Words.MOST_LETTERS && isLetter(letter); i++) {
-                word = Words.with(word, letter);
                 step();
-                letter = here();
             }
-            if (word == 0 || isLetter(letter)) {
+            if (taken == 0) {
                 spoil();
             }
-            return word;
-        }
-
-        private static boolean isLetter(int sign) {
-            return sign >= 'a' && sign <= 'z';
+            return taken;
         }
 
         int items() {
@@ -646,6 +659,18 @@ public final class CueRolls {
         PlotReader() {
             parts = new int[Plots.MOST_SCENES];
             scenes = 0;
+        }
+
+        boolean joins(int sign) {
+            return false;
+        }
+
+        int mostJoined() {
+            return 0;
+        }
+
+        long grown(long value, int sign) {
+            return value;
         }
 
         void takeAll() {
@@ -691,8 +716,7 @@ public final class CueRolls {
         private static final int MOST_DIGITS = 4;
         private static final int MOST_NUMBER = 1000000;
         private static final int MOST_WORTH = 100;
-        private final byte[][] texts;
-        private final int[] sizes;
+        private final long[][] texts;
         private int number;
         private long word;
         private int letters;
@@ -700,12 +724,22 @@ public final class CueRolls {
         private int firstLetter;
         private int lettersAhead;
         private int worth;
-        private boolean held;
 
         Habits() {
-            texts = new byte[MOST][Tape.MOST];
-            sizes = new int[MOST];
+            texts = new long[MOST][MOST_TOKENS];
             number = 0;
+        }
+
+        boolean joins(int sign) {
+            return sign >= '0' && sign <= '9';
+        }
+
+        int mostJoined() {
+            return MOST_DIGITS;
+        }
+
+        long grown(long value, int sign) {
+            return 10 * value + sign - '0';
         }
 
         int number() {
@@ -713,21 +747,22 @@ public final class CueRolls {
         }
 
         boolean has(int habit) {
-            return habit >= 0 && habit < number;
+            return habit >= 0 && habit < number && habit < texts.length;
         }
 
-        int add(Tape tape) {
-            if (tape == null || number < 0 || number >= texts.length || number >= sizes.length) {
+        /** Keeps what was read without fault. */
+        int add() {
+            if (number < 0 || number >= texts.length) {
                 return NONE;
             }
-            sizes[number] = tape.copyTo(texts[number]);
+            copyTo(texts[number]);
             number++;
             return number - 1;
         }
 
         /** The worth of a last word, with the word ahead of it (0: none), within 0 .. 100. */
         int worthOf(int habit, long last, long ahead) {
-            if (!has(habit) || habit >= texts.length || habit >= sizes.length) {
+            if (!has(habit)) {
                 return 0;
             }
             word = last;
@@ -735,42 +770,32 @@ public final class CueRolls {
             vowels = Words.vowels(last);
             firstLetter = Words.firstLetter(last);
             lettersAhead = Words.letters(ahead);
-            readAgain(texts[habit], sizes[habit]);
+            begin(texts[habit]);
+            takeAll();
             return Math.max(0, Math.min(MOST_WORTH, worth));
         }
 
         void takeAll() {
             worth = 0;
-            held = false;
+            boolean held = false;
             boolean more = true;
             for (int i = 0; i < Tape.MOST && more; i++) {
-                takeClause();
-                more = takes(';');
-            }
-        }
-
-        private void takeClause() {
-            needs('y');
-            needs(':');
-            int opening = sign();
-            boolean holds = true;
-            int value = 0;
-            if (opening == '!' || opening == '(') {
-                holds = condition(0);
-                needs('?');
-                value = sum(0);
-            } else {
-                // Only what stands behind the first sum tells whether the clause has a condition.
-                value = sum(0);
-                if (isRelation(sign())) {
-                    holds = moreTruths(moreUnits(compared(value, 0), 0), 0);
+                needs('y');
+                needs(':');
+                boolean opened = sign() == '!' || sign() == '(';
+                int value = opened ? 0 : sum(0);
+                boolean holds = true;
+                // Only what stands behind a first sum tells whether it belongs to a condition.
+                if (opened || isRelation(sign())) {
+                    holds = opened ? condition(0) : moreTruths(moreUnits(compared(value, 0), 0), 0);
                     needs('?');
                     value = sum(0);
                 }
-            }
-            if (holds && !held) {
-                held = true;
-                worth = value;
+                if (holds && !held) {
+                    held = true;
+                    worth = value;
+                }
+                more = takes(';');
             }
         }
 
@@ -795,21 +820,20 @@ public final class CueRolls {
         }
 
         private boolean unit(int depth) {
-            int opening = sign();
-            if (opening != '!' && opening != '(') {
-                return compared(sum(depth), depth);
+            boolean denied = false;
+            int within = depth;
+            for (int i = depth; i < MOST_WITHIN && takes('!'); i++) {
+                denied = !denied;
+                within++;
             }
-            if (depth >= MOST_WITHIN) {
-                spoil();
-                return false;
+            boolean holds;
+            if (within < MOST_WITHIN && takes('(')) {
+                holds = condition(within + 1);
+                needs(')');
+            } else {
+                holds = compared(sum(within), within);
             }
-            step();
-            if (opening == '!') {
-                return !unit(depth + 1);
-            }
-            boolean holds = condition(depth + 1);
-            needs(')');
-            return holds;
+            return holds != denied;
         }
 
         private boolean compared(int left, int depth) {
@@ -864,61 +888,37 @@ public final class CueRolls {
 
         private int atom(int depth) {
             int sign = sign();
-            if (isDigit(sign)) {
-                return digits();
-            }
             if (sign == '[' && depth < MOST_WITHIN) {
                 step();
                 int value = sum(depth + 1);
                 needs(']');
                 return value;
             }
-            return letterValue(sign);
-        }
-
-        private int digits() {
-            int value = 0;
-            int digit = here();
-            for (int i = 0; i < MOST_DIGITS && isDigit(digit); i++) {
-                value = 10 * value + digit - '0';
-                step();
-                digit = here();
-            }
-            if (isDigit(digit)) {
+            int value = sign == JOINED ? (int) value() : letterValue(sign);
+            if (value == NONE) {
                 spoil();
-            }
-            return value;
-        }
-
-        private static boolean isDigit(int sign) {
-            return sign >= '0' && sign <= '9';
-        }
-
-        /** What one of the letters n v f l w is; any other sign is wrong. */
-        private int letterValue(int sign) {
-            int value = 0;
-            switch (sign) {
-                case 'n':
-                    value = letters;
-                    break;
-                case 'v':
-                    value = vowels;
-                    break;
-                case 'f':
-                    value = firstLetter;
-                    break;
-                case 'l':
-                    value = Words.letter(word, 0);
-                    break;
-                case 'w':
-                    value = lettersAhead;
-                    break;
-                default:
-                    spoil();
-                    return 0;
+                return 0;
             }
             step();
             return value;
+        }
+
+        /** What one of the letters n v f l w is; NONE: another sign. */
+        private int letterValue(int sign) {
+            switch (sign) {
+                case 'n':
+                    return letters;
+                case 'v':
+                    return vowels;
+                case 'f':
+                    return firstLetter;
+                case 'l':
+                    return Words.letter(word, 0);
+                case 'w':
+                    return lettersAhead;
+                default:
+                    return NONE;
+            }
         }
     }
 
@@ -981,7 +981,8 @@ public final class CueRolls {
         }
 
         boolean has(int speech) {
-            return speech >= 0 && speech < SPEECHES && speech % PLACES < sizeOf(rollOf(speech));
+            int roll = rollOf(speech);
+            return speech >= 0 && roll < number && roll < sizes.length && speech % PLACES < sizes[roll];
         }
 
         /** Whether there is such a speech, and it is of one of some rolls. */
@@ -994,7 +995,7 @@ public final class CueRolls {
         }
 
         int sizeOf(int roll) {
-            return hasRoll(roll) ? sizes[roll] : 0;
+            return roll >= 0 && roll < number && roll < sizes.length ? sizes[roll] : 0;
         }
 
         int speeches() {
@@ -1936,7 +1937,7 @@ public final class CueRolls {
         }
 
         private int sizeOf(int plot) {
-            return has(plot) ? sizes[plot] : 0;
+            return plot >= 0 && plot < number && plot < sizes.length ? sizes[plot] : 0;
         }
 
         /** The parts in a scene, as bits; NONE: no such scene. */
