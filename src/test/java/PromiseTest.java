@@ -51,6 +51,10 @@ public final class PromiseTest {
         due("2: refused, it has as many", x.count(4), 199);
         due("2: 200 bytes", x.feed(0, 0, 0x00002000, 0, 0), 200);
         due("2: none more", x.feed(0, 0, 0, 0, 1), -1);
+        due("2: nor of the first number", x.feed(1 << 24, 0, 0, 0, 0), -1);
+        due("2: nor of the second", x.feed(0, 1 << 16, 0, 0, 0), -1);
+        due("2: nor of the third", x.feed(0, 0, 1 << 8, 0, 0), -1);
+        due("2: nor of the fourth", x.feed(0, 0, 0, LEAST, 0), -1);
         due("2: nothing more is fine", x.feed(0, 0, 0, 0, 0), 200);
     }
 
@@ -281,6 +285,10 @@ public final class PromiseTest {
         due("9: my lord from z", x.far(1, 4), 7);
         due("9: the longest from z", x.far(4, 4), 17);
         due("9: the longest from my lord", x.far(4, 0), 15);
+        CueRolls y = Check.withRolls("b c>x;->bac;->b;->c b c");
+        due("9: the blank is one", y.far(0, 1), 1);
+        due("9: the blank and a letter", y.far(0, 2), 2);
+        due("9: the last two words", y.far(0, 3), 0);
         due("9: no cue", x.far(0, 1), -1);
         due("9: no such one", x.far(1, 5), -1);
         due("9: no such one", x.far(5, 1), -1);
@@ -323,6 +331,8 @@ public final class PromiseTest {
         due("11: no such speech", x.kind(-16, 7), -1);
         CueRolls own = Check.withRolls("->ab;ab>c", "->aa");
         due("11: its own is ahead of slipped", own.kind(1, 3), 3);
+        CueRolls later = Check.withRolls("->zzzz", "abc>q;->abd");
+        due("11: slipped only by others", later.kind(16, 3), 5);
     }
 
     private void kinds() {
@@ -347,6 +357,7 @@ public final class PromiseTest {
         due("13: not of its own roll", x.nearest(17, 3), 1);
         due("13: the same", x.nearest(16, 3), 0);
         due("13: of several the lowest", x.nearest(32, 7), 1);
+        due("13: not of its own roll", Check.withRolls("->zzzz", "b>b").nearest(16, 3), 0);
         due("13: no cue", x.nearest(0, 3), -1);
         due("13: no others", x.nearest(1, 1), -1);
         due("13: not among them", x.nearest(1, 6), -1);
@@ -393,6 +404,8 @@ public final class PromiseTest {
         due("14: a product of 20,736", w.least(255), -1);
         due("17: a product of 20,736", w.sure(255, 0, 16), -2);
         due("14: without one", w.least(127), 16);
+        due("14: told, then not told", w.least(255), -1);
+        due("14: then others", w.least(1), 1);
         String five = "->a;->a;->a;->a";
         CueRolls v = Check.withRolls(five, five, five, five, five);
         due("14: five times five", v.least(31), 19);
@@ -405,6 +418,8 @@ public final class PromiseTest {
         due("15: one alone", x.orders(1), 1);
         due("15: no such rolls", x.orders(8), -1);
         due("15: no rolls", x.orders(0), -1);
+        due("15: a double cue behind either", Check.withRolls("->a", "a>b", "->a").orders(7), 4);
+        due("14: a double cue behind either", Check.withRolls("->a", "a>b", "->a").least(7), 1);
         due("15: either first", Check.withRolls("->a", "->b").orders(3), 2);
         due("15: three in any order", Check.withRolls("->a", "->b", "->c").orders(7), 6);
         due("15: one pair stays", Check.withRolls("->a", "a>b", "z>c").orders(7), 1);
@@ -484,6 +499,13 @@ public final class PromiseTest {
         due("19: no such roll", x.one(6), -1);
         due("19: no such roll", x.one(-1), -1);
         due("19: no such roll", x.one(MOST), -1);
+        CueRolls chain = Check.withRolls("b>a", "c>b", "d>c", "e>d", "f>e", "g>f", "h>g", "->h");
+        due("19: a chain", chain.one(0), 255);
+        due("19: a chain", chain.one(7), 255);
+        due("19: a chain from within", chain.one(4), 255);
+        CueRolls back = Check.withRolls("->h", "h>g", "g>f", "f>e", "e>d", "d>c", "c>b", "b>a");
+        due("19: a chain", back.one(0), 255);
+        due("19: a chain", back.one(7), 255);
         Check.tell(x, 0, "->b");
         due("19: double no longer joins", x.one(2), 4);
         due("19: the others stay", x.one(0), 3);
@@ -503,6 +525,7 @@ public final class PromiseTest {
         due("20: no rolls", x.settles(1, 0), -1);
         due("20: it is among them", x.settles(1, 3), -1);
         CueRolls y = Check.withRolls("->a;a>b;x>c", "->a", "->x", "->xx");
+        due("20: the first speech's cue", Check.withRolls("a>b", "->a").settles(1, 1), 1);
         due("20: its own is neither slipped nor lost", y.settles(1, 1), 0);
         due("20: slipped among them", y.kind(2, 9), 4);
         due("20: slipped, met then", y.settles(2, 9), 1);
@@ -591,6 +614,7 @@ public final class PromiseTest {
         due("25: no rolls", x.rehearse(0, -1), -1);
         due("25: no such rolls", x.rehearse(8, -1), -1);
         due("25: not its own", Check.withRolls("->a;a>b").rehearse(1, -1), 1);
+        due("25: not its own", Check.withRolls("z>q", "->a;a>b").rehearse(3, -1), 1);
         CueRolls y = Check.withRolls("->a;c>d", "a>b", "a>c", "->z;->w");
         due("25: all are ready, the lowest speaks", y.rehearse(15, 0), 0);
         due("25: the lowest of those ready", y.rehearse(15, 1), 16);
@@ -631,6 +655,7 @@ public final class PromiseTest {
         due("28: one roll", x.tempted(2), 0);
         due("28: no rolls", x.tempted(0), -1);
         due("28: no such rolls", x.tempted(4), -1);
+        due("28: the first speech's cue", Check.withRolls("a b>x", "->a b c").tempted(3), 1);
         Check.tell(x, 0, "a b>x a b x");
         due("28: two cues", x.tempted(7), 2 + 1 + 3);
         due("28: two of three", x.tempted(6), 2);
@@ -718,6 +743,8 @@ public final class PromiseTest {
         CueRolls x = Check.withPlots("ab / bcd / acd / d");
         due("33: the scene", x.crowd(0, 0), 1);
         due("33: how many", x.crowd(0, 1), 3);
+        due("33: the first scene", Check.withPlots("abc/ab/def").crowd(0, 0), 0);
+        due("33: how many there", Check.withPlots("abc/ab/def").crowd(0, 1), 3);
         due("33: no such one", x.crowd(0, 2), -1);
         due("33: no such one", x.crowd(0, -1), -1);
         due("33: no such plot", x.crowd(1, 0), -1);
