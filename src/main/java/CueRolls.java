@@ -24,14 +24,16 @@ public final class CueRolls {
     private int keptPlay;
 
     public CueRolls() {
+        Rolls allRolls = new Rolls();
+        Cues allCues = new Cues(allRolls);
         tape = new Tape();
         rollReader = new RollReader();
         plotReader = new PlotReader();
         habits = new Habits();
-        rolls = new Rolls();
-        cues = new Cues(rolls);
-        orders = new Orders(rolls, cues);
-        stage = new Stage(rolls, cues);
+        rolls = allRolls;
+        cues = allCues;
+        orders = new Orders(allRolls, allCues);
+        stage = new Stage(allRolls, allCues);
         plots = new Plots();
         keptRolls = 0;
         keptPlay = 0;
@@ -929,13 +931,16 @@ public final class CueRolls {
         static final int MOST_WORDS = 12;
         static final int MOST_CUE = 2;
         static final int PLACES = 16;
-        static final int SPEECHES = MOST * PLACES;
+        static final int MOST_SPEECHES = MOST * MOST_ITEMS;
+        private static final int SPEECHES = MOST * PLACES;
         private final int[] sizes;
         private final int[] habits;
         private final int[] cueWords;
         private final long[] cues;
         private final int[] wordCounts;
         private final long[] words;
+        private final int[] listed;
+        private int speeches;
         private int number;
         private int changes;
 
@@ -946,6 +951,8 @@ public final class CueRolls {
             cues = new long[SPEECHES * MOST_CUE];
             wordCounts = new int[SPEECHES];
             words = new long[SPEECHES * MOST_WORDS];
+            listed = new int[MOST_SPEECHES];
+            speeches = 0;
             number = 0;
             changes = 0;
         }
@@ -985,11 +992,6 @@ public final class CueRolls {
             return speech >= 0 && roll < number && roll < sizes.length && speech % PLACES < sizes[roll];
         }
 
-        /** Whether there is such a speech, and it is of one of some rolls. */
-        boolean hasOf(int speech, int some) {
-            return isOf(speech, some) && has(speech);
-        }
-
         boolean hasCue(int speech) {
             return has(speech) && cueWords[speech] > 0;
         }
@@ -999,11 +1001,12 @@ public final class CueRolls {
         }
 
         int speeches() {
-            int sum = 0;
-            for (int roll = 0; roll < number; roll++) {
-                sum += sizeOf(roll);
-            }
-            return sum;
+            return speeches;
+        }
+
+        /** All speeches one by one, the lowest first. */
+        int speechAt(int i) {
+            return i >= 0 && i < speeches && i < listed.length ? listed[i] : NONE;
         }
 
         int wordsOf(int speech) {
@@ -1062,6 +1065,10 @@ public final class CueRolls {
             }
             for (int item = 0; item < reader.items() && item < MOST_ITEMS; item++) {
                 fill(PLACES * number + item, reader, item);
+                if (speeches >= 0 && speeches < listed.length) {
+                    listed[speeches] = PLACES * number + item;
+                    speeches++;
+                }
             }
             sizes[number] = reader.items();
             habits[number] = NONE;
@@ -1085,10 +1092,14 @@ public final class CueRolls {
         }
 
         void cutTo(int kept) {
-            if (kept >= 0 && kept < number) {
-                number = kept;
-                changes++;
+            if (kept < 0 || kept >= number) {
+                return;
             }
+            for (int roll = kept; roll < number && roll < sizes.length; roll++) {
+                speeches -= sizes[roll];
+            }
+            number = kept;
+            changes++;
         }
     }
 
@@ -1107,6 +1118,7 @@ public final class CueRolls {
         private final int[] endLine;
         private final int[] costs;
         private final boolean[] lost;
+        private final int[] neighbours;
         private int limit;
 
         Cues(Rolls all) {
@@ -1114,7 +1126,8 @@ public final class CueRolls {
             cueLine = new int[LINE];
             endLine = new int[LINE];
             costs = new int[LINE + 1];
-            lost = new boolean[Rolls.SPEECHES];
+            lost = new boolean[Rolls.MOST_SPEECHES];
+            neighbours = new int[Rolls.MOST];
             limit = 1;
         }
 
@@ -1212,8 +1225,9 @@ public final class CueRolls {
         private int metBy(int speech, int some) {
             int others = some & ~(1 << Rolls.rollOf(speech));
             int met = 0;
-            for (int other = 0; other < Rolls.SPEECHES; other++) {
-                if (rolls.hasOf(other, others) && closes(speech, other)) {
+            for (int i = 0; i < rolls.speeches(); i++) {
+                int other = rolls.speechAt(i);
+                if (Rolls.isOf(other, others) && closes(speech, other)) {
                     met++;
                 }
             }
@@ -1231,8 +1245,9 @@ public final class CueRolls {
 
         private boolean slips(int speech, int some) {
             int others = some & ~(1 << Rolls.rollOf(speech));
-            for (int other = 0; other < Rolls.SPEECHES; other++) {
-                if (rolls.hasOf(other, others) && distance(speech, other) <= limit) {
+            for (int i = 0; i < rolls.speeches(); i++) {
+                int other = rolls.speechAt(i);
+                if (Rolls.isOf(other, others) && distance(speech, other) <= limit) {
                     return true;
                 }
             }
@@ -1241,8 +1256,9 @@ public final class CueRolls {
 
         int howManyOfKind(int some, int kind) {
             int number = 0;
-            for (int speech = 0; speech < Rolls.SPEECHES; speech++) {
-                if (rolls.hasOf(speech, some) && kindOf(speech, some) == kind) {
+            for (int i = 0; i < rolls.speeches(); i++) {
+                int speech = rolls.speechAt(i);
+                if (Rolls.isOf(speech, some) && kindOf(speech, some) == kind) {
                     number++;
                 }
             }
@@ -1254,8 +1270,9 @@ public final class CueRolls {
             int others = some & ~(1 << Rolls.rollOf(speech));
             int nearest = NONE;
             int least = 0;
-            for (int other = 0; other < Rolls.SPEECHES; other++) {
-                if (rolls.hasOf(other, others)) {
+            for (int i = 0; i < rolls.speeches(); i++) {
+                int other = rolls.speechAt(i);
+                if (Rolls.isOf(other, others)) {
                     int far = distance(speech, other);
                     if (nearest == NONE || far < least) {
                         nearest = other;
@@ -1268,23 +1285,24 @@ public final class CueRolls {
 
         int wordsAtLeast(int some) {
             int sum = 0;
-            for (int speech = 0; speech < Rolls.SPEECHES && speech < lost.length; speech++) {
-                boolean among = rolls.hasOf(speech, some);
-                lost[speech] = among && kindOf(speech, some) == LOST;
+            for (int i = 0; i < rolls.speeches() && i < lost.length; i++) {
+                int speech = rolls.speechAt(i);
+                boolean among = Rolls.isOf(speech, some);
+                lost[i] = among && kindOf(speech, some) == LOST;
                 if (among) {
                     sum += rolls.wordsOf(speech);
                 }
-                if (lost[speech] && !wasLost(speech)) {
+                if (lost[i] && !wasLost(i)) {
                     sum += rolls.cueWordsOf(speech);
                 }
             }
             return sum;
         }
 
-        /** Whether a lower speech has a lost cue that is alike. */
-        private boolean wasLost(int speech) {
-            for (int lower = 0; lower < speech && lower < lost.length; lower++) {
-                if (lost[lower] && alike(lower, speech)) {
+        /** Whether a speech listed ahead of one has a lost cue that is alike. */
+        private boolean wasLost(int listed) {
+            for (int i = 0; i < listed && i < lost.length; i++) {
+                if (lost[i] && alike(rolls.speechAt(i), rolls.speechAt(listed))) {
                     return true;
                 }
             }
@@ -1306,32 +1324,37 @@ public final class CueRolls {
 
         /** The rolls that met cues join with a roll, itself too, as bits. */
         int joined(int roll) {
+            int all = (1 << rolls.number()) - 1;
+            for (int i = 0; i < Rolls.MOST; i++) {
+                neighbours[i] = 0;
+            }
+            for (int i = 0; i < rolls.speeches(); i++) {
+                int speech = rolls.speechAt(i);
+                if (metBy(speech, all) == 1) {
+                    join(Rolls.rollOf(speech), Rolls.rollOf(lowestMet(speech)));
+                }
+            }
             int joined = 1 << roll;
             for (int i = 0; i < Rolls.MOST; i++) {
-                joined |= joinedAtOnce(joined);
-            }
-            return joined;
-        }
-
-        /** The rolls that share a met cue with one of some: it is of them, or what it ends. */
-        private int joinedAtOnce(int some) {
-            int all = (1 << rolls.number()) - 1;
-            int joined = 0;
-            for (int speech = 0; speech < Rolls.SPEECHES; speech++) {
-                if (rolls.has(speech) && metBy(speech, all) == 1) {
-                    int both = 1 << Rolls.rollOf(speech) | 1 << Rolls.rollOf(onlyMet(speech));
-                    if ((both & some) != 0) {
-                        joined |= both;
-                    }
+                for (int each = 0; each < Rolls.MOST; each++) {
+                    joined |= Rolls.isIn(each, joined) ? neighbours[each] : 0;
                 }
             }
             return joined;
         }
 
+        private void join(int one, int other) {
+            if (one >= 0 && one < neighbours.length && other >= 0 && other < neighbours.length) {
+                neighbours[one] |= 1 << other;
+                neighbours[other] |= 1 << one;
+            }
+        }
+
         /** The lowest speech of another roll that the cue of a speech ends; the speech itself: none. */
-        private int onlyMet(int speech) {
-            for (int other = 0; other < Rolls.SPEECHES; other++) {
-                if (rolls.has(other) && Rolls.rollOf(other) != Rolls.rollOf(speech) && closes(speech, other)) {
+        private int lowestMet(int speech) {
+            for (int i = 0; i < rolls.speeches(); i++) {
+                int other = rolls.speechAt(i);
+                if (Rolls.rollOf(other) != Rolls.rollOf(speech) && closes(speech, other)) {
                     return other;
                 }
             }
@@ -1340,8 +1363,9 @@ public final class CueRolls {
 
         int settledBy(int roll, int some) {
             int settled = 0;
-            for (int speech = 0; speech < Rolls.SPEECHES; speech++) {
-                if (rolls.hasOf(speech, some) && isLoose(speech, some) && metBy(speech, 1 << roll) > 0) {
+            for (int i = 0; i < rolls.speeches(); i++) {
+                int speech = rolls.speechAt(i);
+                if (Rolls.isOf(speech, some) && isLoose(speech, some) && metBy(speech, 1 << roll) > 0) {
                     settled++;
                 }
             }
@@ -1384,8 +1408,9 @@ public final class CueRolls {
 
         int temptations(int some) {
             int pairs = 0;
-            for (int speech = 0; speech < Rolls.SPEECHES; speech++) {
-                if (rolls.hasOf(speech, some)) {
+            for (int i = 0; i < rolls.speeches(); i++) {
+                int speech = rolls.speechAt(i);
+                if (Rolls.isOf(speech, some)) {
                     pairs += temptedIn(speech, some & ~(1 << Rolls.rollOf(speech)));
                 }
             }
@@ -1394,8 +1419,9 @@ public final class CueRolls {
 
         private int temptedIn(int speech, int others) {
             int pairs = 0;
-            for (int other = 0; other < Rolls.SPEECHES; other++) {
-                if (rolls.hasOf(other, others) && within(speech, other) != NONE) {
+            for (int i = 0; i < rolls.speeches(); i++) {
+                int other = rolls.speechAt(i);
+                if (Rolls.isOf(other, others) && within(speech, other) != NONE) {
                     pairs++;
                 }
             }
@@ -1882,6 +1908,7 @@ public final class CueRolls {
         private static final int MOST_CREW = 10;
         private final int[] parts;
         private final int[] sizes;
+        private final int[] near;
         private final int[] clashes;
         private final int[] coats;
         private int number;
@@ -1890,6 +1917,7 @@ public final class CueRolls {
         Plots() {
             parts = new int[MOST * MOST_SCENES];
             sizes = new int[MOST];
+            near = new int[PARTS];
             clashes = new int[PARTS];
             coats = new int[PARTS];
             number = 0;
@@ -1979,32 +2007,34 @@ public final class CueRolls {
         }
 
         boolean bar(int plot, int one, int other, int change) {
-            return isIn(one, boys) == isIn(other, boys) && areNear(plot, one, other, change);
+            layNear(plot, change);
+            return isIn(one, boys) == isIn(other, boys) && one >= 0 && one < near.length && isIn(other, near[one]);
         }
 
-        private boolean areNear(int plot, int one, int other, int change) {
-            int scenes = sizeOf(plot);
-            for (int scene = 0; scene < scenes; scene++) {
-                int until = Math.min(scenes - 1, scene + change);
-                for (int near = Math.max(0, scene - change); near <= until; near++) {
-                    if (isIn(one, partsIn(plot, scene)) && isIn(other, partsIn(plot, near))) {
-                        return true;
-                    }
+        /** For each part those in scenes that are no more than a change from one of its own, as bits. */
+        private void layNear(int plot, int change) {
+            for (int part = 0; part < near.length; part++) {
+                near[part] = 0;
+            }
+            int last = sizeOf(plot) - 1;
+            for (int scene = 0; scene <= last; scene++) {
+                int around = 0;
+                int until = Math.min(last, scene + change);
+                for (int other = Math.max(0, scene - change); other <= until; other++) {
+                    around |= partsIn(plot, other);
+                }
+                int here = partsIn(plot, scene);
+                for (int part = 0; part < near.length; part++) {
+                    near[part] |= isIn(part, here) ? around : 0;
                 }
             }
-            return false;
         }
 
         /** For each part those that may not have its coat, as bits. */
         private void layClashes(int plot, int change) {
-            for (int one = 0; one < PARTS; one++) {
-                clashes[one] = 0;
-                for (int other = 0; other < PARTS; other++) {
-                    boolean unlike = isIn(one, boys) != isIn(other, boys);
-                    if (one != other && (unlike || bar(plot, one, other, change))) {
-                        clashes[one] |= 1 << other;
-                    }
-                }
+            layNear(plot, change);
+            for (int part = 0; part < near.length && part < clashes.length; part++) {
+                clashes[part] = near[part] | (isIn(part, boys) ? ~boys : boys);
             }
         }
 
