@@ -285,6 +285,7 @@ public final class PromiseTest {
         due("9: my lord from z", x.far(1, 4), 7);
         due("9: the longest from z", x.far(4, 4), 17);
         due("9: the longest from my lord", x.far(4, 0), 15);
+        due("9: none alike", Check.withRolls("z>abc").far(0, 0), 3);
         CueRolls y = Check.withRolls("b c>x;->bac;->b;->c b c");
         due("9: the blank is one", y.far(0, 1), 1);
         due("9: the blank and a letter", y.far(0, 2), 2);
