@@ -1511,7 +1511,7 @@ public final class CueRolls {
             states = 1;
             int speeches = 0;
             for (int next = 0; next < Rolls.MOST; next++) {
-                if (Rolls.isIn(next, some)) {
+                if (Rolls.isIn(next, some) && among < Rolls.MOST) {
                     roll[among] = next;
                     size[among] = rolls.sizeOf(next);
                     stride[among] = states;
