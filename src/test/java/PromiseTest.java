@@ -190,6 +190,10 @@ public final class PromiseTest {
         faultOf(2, "y:!!!!!n=[1]?2", -1);
         faultOf(2, "y:!!!!!!n=1&[1]=1?2", -1);
         faultOf(2, "y:!!!!!!n=1&!!!!!!!v=1?2", 18);
+        faultOf(2, "y:n=1&!!!!!!v=1?2", -1);
+        faultOf(2, "y:n=1&!!!!!!!v=1?2", 12);
+        faultOf(2, "y:n=1|((((((v=1))))))?2", -1);
+        faultOf(2, "y:n=1|(((((((v=1)))))))?2", 12);
         faultOf(2, "y:((((((n=1))))))?2", -1);
         faultOf(2, "y:(((((((n=1)))))))?2", 8);
     }
@@ -379,6 +383,11 @@ public final class PromiseTest {
         due("14: no such rolls", x.least(-1), -1);
         due("14: two without cue, one is behind", Check.withRolls("->a", "->b").least(3), 1);
         due("14: of its own roll it does not follow", Check.withRolls("->a;a>b").least(1), 1);
+        CueRolls y = Check.withRolls("->a;b>a", "a>b");
+        due("14: both", y.least(3), 0);
+        due("14: then one", y.least(1), 1);
+        due("14: then both again", y.least(3), 0);
+        due("15: then both again", y.orders(3), 1);
     }
 
     private void toldOnly() {
@@ -473,6 +482,13 @@ public final class PromiseTest {
         due("17: open", y.sure(7, 16, 0), -1);
         due("17: open", y.sure(7, 32, 16), -1);
         due("17: in none", y.sure(7, 0, 16), 0);
+        CueRolls z = Check.withRolls("z>a", "z>b", "z>c;z>d");
+        due("17: any order", z.orders(7), 12);
+        due("17: any order, open", z.sure(7, 32, 33), -1);
+        CueRolls w = Check.withRolls("z>a", "z>b", "z>c", "c>d");
+        due("17: two in any order, then one pair", w.orders(15), 6);
+        due("17: in all, however it is come to", w.sure(15, 32, 48), 1);
+        due("17: open, however it is come to", w.sure(15, 0, 32), -1);
     }
 
     private void length() {
@@ -488,6 +504,8 @@ public final class PromiseTest {
         due("18: alike ones of two rolls once", y.length(3), 6 + 2 + 1);
         y.limit(0);
         due("18: slipped ones are lost", y.length(3), 6 + 2 + 1 + 1 + 1);
+        due("18: one word is not the first of two", Check.withRolls("x>a;x y>b").length(1), 2 + 1 + 2);
+        due("18: nor the last of two", Check.withRolls("y>a;x y>b").length(1), 2 + 1 + 2);
     }
 
     private void one() {
@@ -657,6 +675,10 @@ public final class PromiseTest {
         due("28: no rolls", x.tempted(0), -1);
         due("28: no such rolls", x.tempted(4), -1);
         due("28: the first speech's cue", Check.withRolls("a b>x", "->a b c").tempted(3), 1);
+        CueRolls y = Check.withRolls("a b>x", "->a b c", "->q a b q", "c d>q");
+        due("28: no cue of a roll that is not among them", y.tempted(6), 0);
+        due("28: nor one in a speech of such a roll", y.tempted(9), 0);
+        due("28: all", y.tempted(15), 2);
         Check.tell(x, 0, "a b>x a b x");
         due("28: two cues", x.tempted(7), 2 + 1 + 3);
         due("28: two of three", x.tempted(6), 2);
@@ -833,6 +855,10 @@ public final class PromiseTest {
         worthOf("y:!(1=1|1=2)?1;y:2", 4);
         worthOf("y:1<2&2>1&2=2?1", 2);
         worthOf("y:2<1|1>2|1=2?1", 0);
+        worthOf("y:1=2&1=1?3", 0);
+        worthOf("y:1=1&1=2&1=1?3", 0);
+        worthOf("y:1=2|1=2&1=1?3", 0);
+        worthOf("y:1=1|1=2&1=2|1=2?3", 6);
         worthOf("y:2<2|2>2?1;y:3", 6);
         worthOf("y:5;y:6", 10);
         worthOf("  y : n  >  4  ?  1 2".replace("1 2", "12 ") + ";  y : 1 ", 24);
