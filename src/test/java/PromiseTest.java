@@ -928,6 +928,16 @@ public final class PromiseTest {
         due("39: the tape stays", y.count(4), 2);
         due("39: the limit stays", y.count(5), 3);
         due("39: boys stay", y.count(6), 5);
+        CueRolls z = Check.withRolls("->a");
+        z.keep();
+        Check.tell(z, 0, "a>b");
+        due("14: with the roll told first", z.least(3), 0);
+        due("17: with the roll told first", z.sure(3, 0, 16), 1);
+        z.back();
+        Check.tell(z, 0, "->b");
+        due("39: one came where one went, its gaps", z.least(3), 1);
+        due("39: one came where one went, its orders", z.orders(3), 2);
+        due("39: one came where one went, sure", z.sure(3, 0, 16), -1);
     }
 
     private void count() {

@@ -43,7 +43,7 @@ public final class ReadmeTest {
 
     /** The class of the examples; null: they do not compile. */
     private static Class<?> examples() throws IOException, ReflectiveOperationException {
-        Path made = Files.createTempDirectory("readme");
+        Path made = Files.createTempDirectory(Path.of("build"), "readme");
         Path source = made.resolve("Examples.java");
         Files.writeString(source, source(Files.readString(Path.of("README.md"))));
         int failed = ToolProvider.getSystemJavaCompiler().run(null, null, null, "-cp",
